@@ -808,14 +808,14 @@ public final class PictureHouse {
 
         boolean isOtherShot(Picture before) {
             int all = width * height;
+            int[] more = new int[16];
+            for (int i = 0; i < all; i++) {
+                more[samples[i] >> 4 & 15]++;
+                more[before.samples[i] >> 4 & 15]--;
+            }
             int differ = 0;
             for (int range = 0; range < 16; range++) {
-                int more = 0;
-                for (int i = 0; i < all; i++) {
-                    more += samples[i] / 16 == range ? 1 : 0;
-                    more -= before.samples[i] / 16 == range ? 1 : 0;
-                }
-                differ += Math.abs(more);
+                differ += Math.abs(more[range]);
             }
             return differ > all;
         }
@@ -823,10 +823,10 @@ public final class PictureHouse {
         int movedFrom(Picture before, int m, int what) {
             int bestX = 0;
             int bestY = 0;
-            int least = partFarFrom(before, m, 0, 0);
+            int least = partFarFrom(before, m, 0, 0, Integer.MAX_VALUE);
             for (int y = -4; y <= 4; y++) {
                 for (int x = -4; x <= 4; x++) {
-                    int sum = partFarFrom(before, m, x, y);
+                    int sum = partFarFrom(before, m, x, y, least);
                     int way = Math.abs(x) + Math.abs(y);
                     int bestWay = Math.abs(bestX) + Math.abs(bestY);
                     if (sum < least || (sum == least && way < bestWay)) {
@@ -839,12 +839,13 @@ public final class PictureHouse {
             return what == 0 ? bestX : what == 1 ? bestY : least;
         }
 
-        private int partFarFrom(Picture before, int m, int dx, int dy) {
+        /** What is above enough need not be summed up to its end. */
+        private int partFarFrom(Picture before, int m, int dx, int dy, int enough) {
             int across = width / 8;
             int left = m % across * 8;
             int top = m / across * 8;
             int sum = 0;
-            for (int y = top; y < top + 8; y++) {
+            for (int y = top; y < top + 8 && sum <= enough; y++) {
                 for (int x = left; x < left + 8; x++) {
                     sum += Math.abs(samples[y * width + x] - before.nearest(0, x + dx, y + dy));
                 }
@@ -1354,7 +1355,7 @@ public final class PictureHouse {
         }
 
         /** The part as another picture has it at the vector that begins at which. */
-        void fetch(Picture from, int plane, int which, int[] into) {
+        private void fetch(Picture from, int plane, int which, int[] into) {
             if (from == null) {
                 return;
             }
@@ -1362,36 +1363,55 @@ public final class PictureHouse {
             int x = plane == 0 ? vector[which] : vector[which] / 2;
             int y = plane == 0 ? vector[which + 1] : vector[which + 1] / 2;
             int wide = from.wide(plane);
-            lineUp(columns, across * side, side, x, wide);
-            lineUp(lines, down * side, side, y, from.high(plane));
-            int base = from.base(plane);
-            int[] samples = from.samples;
-            int halves = (x & 1) + (y & 1);
-            int at = PLANE_BASE[plane];
+            lineUp(columns, across * side, side, x, wide, 1, 0);
+            lineUp(lines, down * side, side, y, from.high(plane), wide, from.base(plane));
             for (int r = 0; r < side; r++) {
-                int upper = base + lines[r] * wide;
-                int lower = base + lines[8 + r] * wide;
-                for (int c = 0; c < side; c++) {
-                    int v = samples[upper + columns[c]];
-                    if (halves == 1) {
-                        v = (v + samples[lower + columns[8 + c]] + 1) / 2;
-                    } else if (halves == 2) {
-                        v += samples[upper + columns[8 + c]] + samples[lower + columns[c]];
-                        v = (v + samples[lower + columns[8 + c]] + 2) / 4;
-                    }
-                    into[at++] = v;
-                }
+                fetchRow(from.samples, (x & 1) + (y & 1), r, side, into, PLANE_BASE[plane] + r * side);
             }
         }
 
+        /** How far plane 0 of the part is from what is wanted; above enough it may be less told. */
+        int farAt(Picture from, int which, int[] wanted, int enough) {
+            if (from == null) {
+                return 0;
+            }
+            int x = vector[which];
+            int y = vector[which + 1];
+            lineUp(columns, across * 8, 8, x, from.width, 1, 0);
+            lineUp(lines, down * 8, 8, y, from.height, from.width, 0);
+            int sum = 0;
+            for (int r = 0; r < 8 && sum < enough; r++) {
+                fetchRow(from.samples, (x & 1) + (y & 1), r, 8, other, 8 * r);
+                for (int i = 8 * r; i < 8 * r + 8; i++) {
+                    sum += Math.abs(wanted[i] - other[i]);
+                }
+            }
+            return sum;
+        }
+
         /** Where the nearer samples are, and (from 8 on) those half a sample further. */
-        private static void lineUp(int[] line, int start, int side, int halves, int size) {
+        private static void lineUp(int[] line, int start, int side, int halves, int size, int stride, int base) {
             int whole = start + (halves >> 1);
             for (int i = 0; i < side; i++) {
                 int near = whole + i;
                 int far = near + (halves & 1);
-                line[i] = near < 0 ? 0 : near >= size ? size - 1 : near;
-                line[8 + i] = far < 0 ? 0 : far >= size ? size - 1 : far;
+                line[i] = base + stride * (near < 0 ? 0 : near >= size ? size - 1 : near);
+                line[8 + i] = base + stride * (far < 0 ? 0 : far >= size ? size - 1 : far);
+            }
+        }
+
+        private void fetchRow(int[] samples, int halves, int r, int side, int[] into, int at) {
+            int upper = lines[r];
+            int lower = lines[8 + r];
+            for (int c = 0; c < side; c++) {
+                int v = samples[upper + columns[c]];
+                if (halves == 1) {
+                    v = (v + samples[lower + columns[8 + c]] + 1) / 2;
+                } else if (halves == 2) {
+                    v += samples[upper + columns[8 + c]] + samples[lower + columns[c]];
+                    v = (v + samples[lower + columns[8 + c]] + 2) / 4;
+                }
+                into[at + c] = v;
             }
         }
 
@@ -1922,16 +1942,21 @@ public final class PictureHouse {
             }
         }
 
+        /** One TOLD is always shorter than two, so none ends where the best goes on with another. */
         private void tryTold(int at, int all) {
             int best = NONE_YET;
             int bestLength = 0;
             for (int length = 1; length <= all - at; length++) {
+                int next = at + length;
+                if (next < all && ways[next] == TOLD) {
+                    continue;
+                }
                 int own = Bits.codeLength(TOLD) + Bits.codeLength(length - 1) + 8 * length;
                 if (own > best || own > need[at]) {
                     break;
                 }
-                if (own + need[at + length] <= best) {
-                    best = own + need[at + length];
+                if (own + need[next] <= best) {
+                    best = own + need[next];
                     bestLength = length;
                 }
             }
@@ -1984,10 +2009,7 @@ public final class PictureHouse {
                     parts.vector[which] = x;
                     parts.vector[which + 1] = y;
                     int sum = vectorBits(parts.vector, which) + vectorBits(parts.vector, which + 1);
-                    if (sum < least) {
-                        parts.fetch(from, 0, which, parts.other);
-                        sum += farFromWanted(least);
-                    }
+                    sum += parts.farAt(from, which, wanted, least - sum);
                     if (sum < least) {
                         least = sum;
                         found[which] = x;
@@ -1995,14 +2017,6 @@ public final class PictureHouse {
                     }
                 }
             }
-        }
-
-        private int farFromWanted(int enough) {
-            int sum = 0;
-            for (int i = 0; i < 64 && sum < enough; i++) {
-                sum += Math.abs(wanted[i] - parts.other[i]);
-            }
-            return sum;
         }
 
         private int vectorBits(int[] vector, int i) {
@@ -2096,6 +2110,7 @@ public final class PictureHouse {
         private int[] settings = null;
         private final int[] groups = new int[MOST_SHOWN];
         private final int[] need = new int[MOST_SHOWN + 1];
+        private final int[] marks = new int[LONGEST_PLANNED];
 
         void takeReel(Picture[] reel, int reelCount, int[] told) {
             many = reelCount;
@@ -2116,6 +2131,9 @@ public final class PictureHouse {
         /** No group looks at another, so that the best way from a place on is found from the end. */
         void planGroups(Film scratch) {
             need[many] = 0;
+            for (int k = 0; k < LONGEST_PLANNED; k++) {
+                marks[k] = -1;
+            }
             scratch.openPictures(sources[0].width, sources[0].height, 0, many);
             for (int place = many - 1; place >= 0; place--) {
                 need[place] = Integer.MAX_VALUE;
@@ -2129,13 +2147,21 @@ public final class PictureHouse {
             }
         }
 
+        /** What a group begins with like the one that was tried last need not be coded again. */
         private int groupNeed(Film scratch, int place, int n) {
             layGroup(scratch, 0, place, n, settings[BETWEEN]);
+            boolean known = true;
             int sum = 0;
             for (int k = 0; k < n; k++) {
-                Picture source = sources[scratch.places[k]];
-                sum += PICTURE_HEAD;
-                sum += blocks.codePicture(out, scratch, k, source, settings[STEP], settings[REACH]);
+                int mark = 3 * scratch.places[k] + scratch.kinds[k];
+                known = known && marks[k] == mark;
+                if (!known) {
+                    Picture source = sources[scratch.places[k]];
+                    int used = blocks.codePicture(out, scratch, k, source, settings[STEP], settings[REACH]);
+                    scratch.sizes[k] = used;
+                    marks[k] = mark;
+                }
+                sum += PICTURE_HEAD + scratch.sizes[k];
             }
             return sum;
         }
@@ -2357,12 +2383,11 @@ public final class PictureHouse {
                     return readMinus(depth);
                 case '(':
                     return readParts(depth, 1);
-                case 'a': case 'm': case 'M':
+                case 'a': case 'm': case 'M': case 'i':
                     at++;
-                    return readCall(depth, c, 2);
-                case 'i':
-                    at++;
-                    return readCall(depth, c, 3);
+                    boolean right = readParts(depth, c == 'i' ? 3 : 2);
+                    addStep(c);
+                    return right;
                 default:
                     return false;
             }
@@ -2389,12 +2414,6 @@ public final class PictureHouse {
             at++;
             boolean right = readFactor(depth + 1);
             addStep('~');
-            return right;
-        }
-
-        private boolean readCall(int depth, int name, int many) {
-            boolean right = readParts(depth, many);
-            addStep(name);
             return right;
         }
 
