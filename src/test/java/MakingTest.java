@@ -7,6 +7,7 @@ public final class MakingTest {
         kinds();
         flatBlocks();
         vectors();
+        backward();
         plan();
         sized();
         tooLarge();
@@ -153,6 +154,9 @@ public final class MakingTest {
         Check.due("17: FORWARD, then SKIPPED with the same vector", house.part(f, 1, 1, 0), 0);
         Check.due("17: x", house.part(f, 1, 1, 1), -4);
         Check.due("17: y", house.part(f, 1, 1, 2), 2);
+        for (int m = 2; m < 4; m++) {
+            Check.due("17: y of the lower row", house.part(f, 1, m, 2), 2);
+        }
         house.set(3, 3);
         int g = house.make(0);
         Check.due("17: x within the reach", house.part(g, 1, 1, 1) >= -3, true);
@@ -162,6 +166,32 @@ public final class MakingTest {
             Check.due("17: no reach", house.part(h, 1, m, 1), 0);
             Check.due("17: no reach", house.part(h, 1, m, 2), 0);
         }
+    }
+
+    /** What comes between is like the later one, and moved. */
+    private static void backward() {
+        PictureHouse house = new PictureHouse();
+        house.blank(24, 24, 128, 128, 128);
+        house.blank(24, 24, 128, 128, 128);
+        house.noise(0, 0, 11L, 90);
+        house.noise(1, 0, 12L, 90);
+        house.shift(1, 1, -2);
+        house.reel(0);
+        house.reel(2);
+        house.reel(1);
+        house.set(2, 1);
+        house.set(3, 4);
+        house.set(4, 1);
+        int f = house.make(0);
+        int[] inner = {1, 2, 4, 5};
+        for (int m : inner) {
+            Check.due("17: BACKWARD", house.part(f, 2, m, 0), 2);
+            Check.due("17: no forward x", house.part(f, 2, m, 1), 0);
+            Check.due("17: no forward y", house.part(f, 2, m, 2), 0);
+            Check.due("17: x", house.part(f, 2, m, 3), -2);
+            Check.due("17: y", house.part(f, 2, m, 4), 4);
+        }
+        Check.due("17: as it was", house.look(f, 1, 0, 12, 12), house.sample(2, 0, 12, 12));
     }
 
     private static int bytesOfGroup(PictureHouse from, int[] places, int between) {
@@ -259,6 +289,14 @@ public final class MakingTest {
                 house.set(4, 4);
             }
         }
+        int bits = 8 * house.coded(free, 0, 3);
+        house.unreel();
+        house.reel(0);
+        house.set(5, bits);
+        house.set(6, bits - bits / 2);
+        Check.due("17: just as many", house.coded(house.make(0), 0, 2), 4);
+        house.set(6, bits - bits / 2 - 1);
+        Check.due("17: one less", house.coded(house.make(0), 0, 2) > 4, true);
         house.set(5, 100);
         house.set(6, 50);
         int before = house.count(1);
@@ -302,16 +340,24 @@ public final class MakingTest {
         Check.due("19: nothing is done", house.tape(0), 5);
         Check.due("19: nothing is done", house.count(5), 1);
         Check.due("19: another", house.bytes(0), house.film(0, 5));
-        PictureHouse board = new PictureHouse();
-        board.blank(24, 24, 0, 0, 0);
+        PictureHouse full = new PictureHouse();
+        full.blank(24, 24, 128, 128, 128);
         for (int plane = 0; plane < 3; plane++) {
-            int side = plane == 0 ? 24 : 12;
-            for (int i = 0; i < side * side; i++) {
-                board.put(0, plane, i % side, i / side, (i % 7 * (i % 5) + i / 3) % 2 * 255);
-            }
+            full.noise(0, plane, 38L + plane, 150);
         }
-        board.reel(0);
-        Check.due("17: WAVES", board.make(1), board.count(1) - 1);
+        full.reel(0);
+        full.set(4, 1);
+        Check.due("17: 2000 bytes", full.make(0), 0);
+        Check.due("17: 2000 bytes", full.coded(0, 0, 3), 2000);
+        full.row(0, 0, 0);
+        Check.due("28: 2000 bytes", full.cut(), 1);
+        full.reel(0);
+        full.unreel();
+        full.reel(full.shown(0, 0));
+        full.reel(0);
+        int two = full.make(0);
+        full.row(two, 0, 0);
+        Check.due("28: 2000 bytes made anew", full.cut(), 3);
     }
 
     private static void waves() {

@@ -50,6 +50,13 @@ public final class ReadingTest {
         wrong("2000 bytes that aren't there", good.length, large);
         large[10] = 8;
         wrong("2048 and more, though the lower byte is lacking", 10, java.util.Arrays.copyOf(large, 11));
+        PictureHouse stale = new PictureHouse();
+        large[10] = 7;
+        large[11] = 209;
+        Check.onTape(stale, large);
+        Check.due("18: 2001 bytes", stale.read(), -11);
+        Check.onTape(stale, java.util.Arrays.copyOf(large, 11));
+        Check.due("18: what was on the tape ahead is gone", stale.read(), -12);
         int[] waves = good.clone();
         waves[2] = 1;
         wrong("a step of WAVES", 9, waves);
@@ -224,6 +231,17 @@ public final class ReadingTest {
             Check.picture(0, 0, step, intra), Check.picture(1, 1, step, beyond));
         Check.due("21: a vector beyond, ahead of y's code", house.coded(h, 1, 6), 3);
         Check.due("21: its spot", house.coded(h, 1, 7), 1);
+        int[][] vectors = {{16, 0, 0}, {17, 0, 3}, {-16, 0, 0}, {-17, 0, 3}, {0, 16, 0}, {0, 17, 3}, {0, -16, 0}, {0, -17, 3}};
+        for (int[] v : vectors) {
+            house.forget();
+            Check.Bits bits = Check.bits().code(1).signed(v[0]).signed(v[1]).empty(6).code(0);
+            h = Check.film(house, Check.head(0, 16, 8, 30, 2),
+                Check.picture(0, 0, step, intra), Check.picture(1, 1, step, bits));
+            Check.due("21: a vector of " + v[0] + ", " + v[1], house.coded(h, 1, 6), v[2]);
+        }
+        house.forget();
+        h = Check.film(house, Check.head(0, 16, 8, 30, 2),
+            Check.picture(0, 0, step, intra), Check.picture(1, 1, step, beyond));
         Check.due("23: mended as in the latest anchor", house.look(h, 1, 0, 9, 1), house.look(h, 0, 0, 9, 1));
         Check.due("24: mended", house.mended(h, 1, 0, 8, 0), true);
         Check.due("24: not mended", house.mended(h, 1, 0, 7, 7), false);
