@@ -297,6 +297,15 @@ public final class MakingTest {
         Check.due("17: just as many", house.coded(house.make(0), 0, 2), 4);
         house.set(6, bits - bits / 2 - 1);
         Check.due("17: one less", house.coded(house.make(0), 0, 2) > 4, true);
+        house.forget();
+        house.set(5, 0);
+        house.set(4, 31);
+        int least = 8 * house.coded(house.make(0), 0, 3);
+        house.set(5, least);
+        house.set(6, least - least / 2 - 1);
+        Check.due("17: one bit is lacking", house.make(0), -1);
+        house.set(6, least - least / 2);
+        Check.due("17: none is lacking", house.make(0) >= 0, true);
         house.set(5, 100);
         house.set(6, 50);
         int before = house.count(1);

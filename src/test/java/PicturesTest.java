@@ -139,12 +139,15 @@ public final class PicturesTest {
         Check.due("5: plane 2", house.sample(2, 2, 1, 1), 100 + 2 * 4 + 2);
         Check.due("5: far", house.shift(0, 1000, -1000), 3);
         Check.due("5: far", house.sample(3, 0, 7, 0), 15 * 8);
+        Check.due("5: far the other way", house.shift(0, -1000, 1000), 4);
+        Check.due("5: far the other way", house.sample(4, 0, 0, 15), 7);
         Check.due("5: the old one stays", house.sample(0, 0, 1, 0), 1);
         Check.due("5: size", house.size(3, 1), 16);
-        Check.noSuch("5: picture ahead of dx", () -> house.shift(4, 1001, 0));
+        Check.noSuch("5: picture ahead of dx", () -> house.shift(5, 1001, 0));
         Check.badArgument("5: dx", () -> house.shift(0, 1001, 0));
         Check.badArgument("5: dx below", () -> house.shift(0, -1001, 0));
         Check.badArgument("5: dy", () -> house.shift(0, 0, 1001));
+        Check.badArgument("5: dy below", () -> house.shift(0, 0, -1001));
         Check.badArgument("5: dy far below", () -> house.shift(0, 0, DEEP));
         while (house.count(0) < 60) {
             house.shift(0, 0, 0);

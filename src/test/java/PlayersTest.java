@@ -152,6 +152,28 @@ public final class PlayersTest {
         Check.due("42: its group is read as if it were the first", house.frame(1, 0, 3, 3), 128);
         Check.due("38: the fourth", house.tick(1), 3);
         Check.due("42: the same as with the third lost", house.frame(1, 0, 5, 6), house.frame(0, 0, 5, 6));
+        house.set(1, 3);
+        house.set(2, 1);
+        house.set(4, 31);
+        house.unreel();
+        int dark = house.blank(8, 8, 10, 10, 10);
+        int grey = house.blank(8, 8, 100, 100, 100);
+        int light = house.blank(8, 8, 190, 190, 190);
+        house.reel(dark);
+        house.reel(grey);
+        house.reel(light);
+        int between = house.make(0);
+        Check.due("22: a B of one bit", house.part(between, 2, 0, 6), 1);
+        house.play(2, between, 4000, 0);
+        house.tick(2);
+        house.lose(2, 4);
+        house.tick(2);
+        Check.due("42: a lost B is as the earlier anchor", house.frame(2, 0, 4, 4), house.look(between, 0, 0, 4, 4));
+        Check.due("42: and not as it was", house.frame(2, 0, 4, 4) != house.look(between, 1, 0, 4, 4), true);
+        house.unreel();
+        for (int p = 0; p < 4; p++) {
+            house.reel(p);
+        }
         int runs = house.make(2);
         house.play(2, runs, 4000, 0);
         house.lose(2, -1);

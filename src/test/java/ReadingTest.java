@@ -62,6 +62,10 @@ public final class ReadingTest {
         wrong("a step of WAVES", 9, waves);
         waves[2] = 2;
         wrong("a step of RUNS", 9, waves);
+        PictureHouse tape = new PictureHouse();
+        Check.due("18: a whole tape", Check.film(tape, Check.head(0, 8, 8, 25, 2)
+            , new int[] {0, 0, 4, 7, 208}, new int[2000], new int[] {1, 1, 4, 7, 191}, new int[1983]), 0);
+        Check.due("19: 4000 bytes", tape.bytes(0), 4000);
         PictureHouse house = new PictureHouse();
         Check.onTape(house, Check.join(Check.head(0, 8, 8, 25, 1), new int[] {0, 0, 4, 7, 208}, new int[2000]));
         Check.due("18: 2000 bytes", house.read(), 0);
@@ -324,6 +328,8 @@ public final class ReadingTest {
         broken("a level beyond below", 5, 0, 0, Check.bits().code(0).code(1).code(0).signed(-4096));
         broken("eight bits behind", 6, 2, 0, one().code(0).empty(6).raw("0000000000"));
         broken("a 1 behind", 6, 2, 0, one().code(0).empty(6).raw("1"));
+        broken("nothing behind", 0, -1, 0, one().code(1).empty(6));
+        broken("just eight bits behind", 6, 2, 0, one().code(1).empty(6).raw("00000000"));
         broken("15 zeros", 7, 1, 0, one().raw("0".repeat(15)));
         broken("15 zeros and more", 7, 0, 0, Check.bits().code(0).raw("0".repeat(15)).raw("1".repeat(30)));
         broken("14 zeros", 2, 0, 0, Check.bits().raw("0".repeat(14)).raw("1".repeat(15)));
