@@ -16,6 +16,7 @@ public final class PictureHouse {
     private static final int FILM_HEAD = 7;
     private static final int PICTURE_HEAD = 5;
     private static final int FACTS = 7;
+    private static final int ENDLESS = 2147483647;
 
     private static final int BLOCKS = 0;
     private static final int WAVES = 1;
@@ -823,7 +824,7 @@ public final class PictureHouse {
         int movedFrom(Picture before, int m, int what) {
             int bestX = 0;
             int bestY = 0;
-            int least = partFarFrom(before, m, 0, 0, Integer.MAX_VALUE);
+            int least = partFarFrom(before, m, 0, 0, ENDLESS);
             for (int y = -4; y <= 4; y++) {
                 for (int x = -4; x <= 4; x++) {
                     int sum = partFarFrom(before, m, x, y, least);
@@ -913,7 +914,17 @@ public final class PictureHouse {
             at = 0;
         }
 
+        /** Without bytes what is written is counted alone. */
+        void startCounting() {
+            data = null;
+            at = 0;
+        }
+
         void write(int v, int many) {
+            if (data == null) {
+                at += many;
+                return;
+            }
             for (int i = many - 1; i >= 0 && at < 8 * MOST_WRITTEN; i--) {
                 int bit = v >> i & 1;
                 int shift = 7 - (at & 7);
@@ -941,6 +952,10 @@ public final class PictureHouse {
 
         static int codeOfSigned(int v) {
             return v > 0 ? 2 * v - 1 : -2 * v;
+        }
+
+        static int signedLength(int v) {
+            return codeLength(codeOfSigned(v));
         }
 
         static int signedOfCode(int code) {
@@ -1969,6 +1984,7 @@ public final class PictureHouse {
     /** Makes the bits of pictures of BLOCKS. */
     private static final class BlocksMaker {
         private final Parts parts = new Parts();
+        private final Bits tally = new Bits();
         private final int[] wanted = new int[Parts.SAMPLES];
         private final int[] bestMade = new int[Parts.SAMPLES];
         private final int[] bestLevels = new int[Parts.SAMPLES];
@@ -1995,20 +2011,20 @@ public final class PictureHouse {
                 for (int way = 0; way < parts.wayCount(); way++) {
                     tryWay(way);
                 }
-                parts.exchange(parts.picture, bestMade, true);
-                writePart(out);
-                System.arraycopy(bestVector, 0, parts.vector, 0, 4);
+                takeBest();
+                parts.exchange(parts.picture, parts.made, true);
+                writePart(out, bestWay);
             }
             return out.byteCount();
         }
 
         private void findVector(Picture from, int which, int reach) {
-            int least = Integer.MAX_VALUE;
+            int least = ENDLESS;
             for (int y = -reach; y <= reach; y++) {
                 for (int x = -reach; x <= reach; x++) {
                     parts.vector[which] = x;
                     parts.vector[which + 1] = y;
-                    int sum = vectorBits(parts.vector, which) + vectorBits(parts.vector, which + 1);
+                    int sum = Bits.signedLength(x - parts.guess[which]) + Bits.signedLength(y - parts.guess[which + 1]);
                     sum += parts.farAt(from, which, wanted, least - sum);
                     if (sum < least) {
                         least = sum;
@@ -2019,27 +2035,20 @@ public final class PictureHouse {
             }
         }
 
-        private int vectorBits(int[] vector, int i) {
-            return Bits.codeLength(Bits.codeOfSigned(vector[i] - parts.guess[i]));
-        }
-
         private void tryWay(int way) {
             int mode = parts.modeOf(way);
             parts.takeVectors(mode, found);
             parts.foretell(mode);
             parts.makeForetold();
-            int bits = Bits.codeLength(way);
-            for (int i = 0; i < 4; i++) {
-                bits += Parts.tells(mode, i) ? vectorBits(parts.vector, i) : 0;
-            }
             for (int block = 0; block < 6 && mode != Parts.SKIPPED; block++) {
                 parts.takeLevels(block, wanted);
-                bits += blockBits(block);
                 if (parts.levelCount(block) > 0) {
                     parts.addRest(block);
                 }
             }
-            int cost = parts.step * parts.step * bits;
+            tally.startCounting();
+            writePart(tally, way);
+            int cost = parts.step * parts.step * tally.at;
             for (int i = 0; i < Parts.SAMPLES; i++) {
                 int d = wanted[i] - parts.made[i];
                 cost += d * d;
@@ -2053,45 +2062,32 @@ public final class PictureHouse {
             }
         }
 
-        private int blockBits(int block) {
-            int bits = Bits.codeLength(parts.levelCount(block));
-            int passed = 0;
-            for (int i = 16 * block; i < 16 * block + 16; i++) {
-                int level = parts.levels[i];
-                if (level == 0) {
-                    passed++;
-                } else {
-                    bits += Bits.codeLength(passed) + Bits.codeLength(Bits.codeOfSigned(level));
-                    passed = 0;
-                }
-            }
-            return bits;
+        private void takeBest() {
+            System.arraycopy(bestMade, 0, parts.made, 0, Parts.SAMPLES);
+            System.arraycopy(bestLevels, 0, parts.levels, 0, Parts.SAMPLES);
+            System.arraycopy(bestVector, 0, parts.vector, 0, 4);
         }
 
-        private void writePart(Bits out) {
-            int mode = parts.modeOf(bestWay);
-            out.writeCode(bestWay);
+        private void writePart(Bits to, int way) {
+            int mode = parts.modeOf(way);
+            to.writeCode(way);
             for (int i = 0; i < 4; i++) {
                 if (Parts.tells(mode, i)) {
-                    out.writeCode(Bits.codeOfSigned(bestVector[i] - parts.guess[i]));
+                    to.writeCode(Bits.codeOfSigned(parts.vector[i] - parts.guess[i]));
                 }
             }
-            System.arraycopy(bestLevels, 0, parts.levels, 0, Parts.SAMPLES);
-            for (int block = 0; block < 6 && mode != Parts.SKIPPED; block++) {
-                writeBlock(out, block);
-            }
-        }
-
-        private void writeBlock(Bits out, int block) {
-            out.writeCode(parts.levelCount(block));
             int passed = 0;
-            for (int i = 16 * block; i < 16 * block + 16; i++) {
+            for (int i = 0; i < Parts.SAMPLES && mode != Parts.SKIPPED; i++) {
+                if (i % 16 == 0) {
+                    to.writeCode(parts.levelCount(i / 16));
+                    passed = 0;
+                }
                 int level = parts.levels[i];
                 if (level == 0) {
                     passed++;
                 } else {
-                    out.writeCode(passed);
-                    out.writeCode(Bits.codeOfSigned(level));
+                    to.writeCode(passed);
+                    to.writeCode(Bits.codeOfSigned(level));
                     passed = 0;
                 }
             }
@@ -2136,7 +2132,7 @@ public final class PictureHouse {
             }
             scratch.openPictures(sources[0].width, sources[0].height, 0, many);
             for (int place = many - 1; place >= 0; place--) {
-                need[place] = Integer.MAX_VALUE;
+                need[place] = ENDLESS;
                 for (int n = 1; n <= LONGEST_PLANNED && place + n <= many; n++) {
                     int all = groupNeed(scratch, place, n) + need[place + n];
                     if (all < need[place]) {
