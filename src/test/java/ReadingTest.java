@@ -367,6 +367,8 @@ public final class ReadingTest {
         broken("a number 0", 5, 0, 1, Check.bits().code(3).signed(0));
         broken("a number beyond", 5, 2, 1, Check.bits().code(128).code(32).code(31).signed(-4096));
         broken("the last number", 0, -1, 1, Check.bits().code(128).code(32).code(31).signed(-4095));
+        broken("the last number above 0", 0, -1, 1, Check.bits().code(128).code(32).code(31).signed(4095));
+        broken("a number beyond above 0", 5, 2, 1, Check.bits().code(128).code(32).code(31).signed(4096));
         broken("eight bits behind", 6, 3, 1, Check.bits().code(128).code(32).code(32).raw("0".repeat(12)));
         broken("15 zeros", 7, 1, 1, Check.bits().code(128).raw("0".repeat(15)));
         int g = Check.film(house, Check.head(1, 8, 8, 30, 2), Check.picture(0, 0, 0, flat),
@@ -410,6 +412,8 @@ public final class ReadingTest {
         broken("no such way", 2, 0, 2, Check.bits().code(4));
         broken("SAME of an I, ahead of the length", 2, 0, 2, Check.bits().code(1));
         broken("a length beyond", 4, 0, 2, Check.bits().code(0).code(128).eight(1));
+        broken("a length beyond what is left", 4, 20, 2, Check.bits().code(0).code(19).eight(1).code(0).code(108).eight(1));
+        broken("DOWN in the first row, ahead of which its length is read", 7, 0, 2, Check.bits().code(2).raw("0".repeat(15)));
         broken("DOWN in the first row", 4, 15, 2, Check.bits().code(0).code(14).eight(1).code(2).code(0));
         broken("DOWN right below it", 0, -1, 2, Check.bits().code(0).code(15).eight(1).code(2).code(111)
             .code(0).code(31).eight(1).code(0).code(31).eight(1));
