@@ -11,8 +11,9 @@ import java.util.stream.Collectors;
 import java.util.stream.Stream;
 
 /**
- * Long runs of calls with the answers of another program, which was written by the document alone
- * and in another language: a line is a call's name, its arguments, and its answer or exception.
+ * Long runs of calls with the answers of another, plainer program in another language, by the same
+ * hand (a misreading that both share is not seen here): a line is a call's name, its arguments, and
+ * its answer or exception.
  */
 public final class RecordedRunsTest {
     private static final Map<String, Method> CALLS = new HashMap<>();
