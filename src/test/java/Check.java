@@ -1,10 +1,12 @@
+import java.util.function.Supplier;
+
 /** What the tests share: answers that are due, films put together by hand, texts on the tape. */
 final class Check {
     private static int wrong = 0;
     private static int looked = 0;
 
-    interface Call {
-        long answer();
+    interface Numbered {
+        void run(int v);
     }
 
     interface Deed {
@@ -23,7 +25,7 @@ final class Check {
         due(what, got ? 1 : 0, want ? 1 : 0);
     }
 
-    private static void thrown(String what, Class<?> kind, Deed deed) {
+    static void thrown(String what, Class<?> kind, Deed deed) {
         looked++;
         String got = "nothing";
         try {
@@ -36,6 +38,36 @@ final class Check {
         }
         wrong++;
         System.out.println(what + " threw " + got + ", due is " + kind.getSimpleName());
+    }
+
+    static void passes(String what, Deed deed) {
+        looked++;
+        try {
+            deed.run();
+        } catch (RuntimeException e) {
+            wrong++;
+            System.out.println(what + " threw " + e + ", due is none");
+        }
+    }
+
+    /** The least and the most pass; their neighbours outside and the farthest ints are refused. */
+    private static void range(String what, Class<?> kind, int least, int most, Numbered call) {
+        int[] inside = {least, most};
+        int[] outside = {least - 1, most + 1, Integer.MIN_VALUE, Integer.MAX_VALUE};
+        for (int v : inside) {
+            passes(what + " of " + v, () -> call.run(v));
+        }
+        for (int v : outside) {
+            thrown(what + " of " + v, kind, () -> call.run(v));
+        }
+    }
+
+    static void numberRange(String what, int least, int most, Numbered call) {
+        range(what, IndexOutOfBoundsException.class, least, most, call);
+    }
+
+    static void argumentRange(String what, int least, int most, Numbered call) {
+        range(what, IllegalArgumentException.class, least, most, call);
     }
 
     static void noSuch(String what, Deed deed) {
@@ -57,16 +89,33 @@ final class Check {
         }
     }
 
-    static void onTape(PictureHouse house, int... bytes) {
-        for (int b : bytes) {
-            house.feed(b, 1);
+    /** Eight bytes a call, for an object has but 512 calls. */
+    static void onTape(House house, int... bytes) {
+        for (int from = 0; from < bytes.length; from += 8) {
+            int n = Math.min(8, bytes.length - from);
+            long eight = 0;
+            for (int i = n - 1; i >= 0; i--) {
+                eight = eight << 8 | bytes[from + i] & 255;
+            }
+            house.feed(eight, n);
         }
     }
 
-    static void text(PictureHouse house, String text) {
-        for (int i = 0; i < text.length(); i++) {
-            house.feed(text.charAt(i), 1);
+    static void text(House house, String text) {
+        onTape(house, text.chars().toArray());
+    }
+
+    /** A film's bytes, a part of them from each of several houses that were made in the same way. */
+    static int[] bytesOf(Supplier<House> houses, int f) {
+        int[] all = new int[houses.get().film(f, 5)];
+        for (int from = 0; from < all.length; from += 200) {
+            House house = houses.get();
+            house.bytes(f);
+            for (int i = from; i < Math.min(from + 200, all.length); i++) {
+                all[i] = house.tape(i);
+            }
         }
+        return all;
     }
 
     /** Joins rows of bytes. */
@@ -95,7 +144,7 @@ final class Check {
     }
 
     /** Reads such a film, which must be taken. */
-    static int film(PictureHouse house, int[]... rows) {
+    static int film(House house, int[]... rows) {
         onTape(house, join(rows));
         int f = house.read();
         due("a film by hand is taken", f >= 0, true);
@@ -138,6 +187,10 @@ final class Check {
                 code(0);
             }
             return this;
+        }
+
+        int length() {
+            return bits.length();
         }
 
         int[] bytes() {

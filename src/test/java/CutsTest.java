@@ -10,8 +10,8 @@ public final class CutsTest {
     }
 
     /** Film 0 of seven pictures in groups of three. */
-    private static PictureHouse house(int between) {
-        PictureHouse house = new PictureHouse();
+    private static House house(int between) {
+        House house = new House();
         house.blank(8, 8, 100, 120, 130);
         house.noise(0, 0, 3L, 60);
         house.reel(0);
@@ -28,7 +28,7 @@ public final class CutsTest {
     }
 
     private static void row() {
-        PictureHouse house = house(0);
+        House house = house(0);
         Check.due("27: how many", house.row(0, 0, 6), 1);
         Check.due("27: how many", house.row(0, 3, 3), 2);
         Check.noSuch("27: film", () -> house.row(1, 0, 0));
@@ -50,38 +50,24 @@ public final class CutsTest {
         Check.due("27: nothing was changed", house.count(4), 8);
     }
 
-    private static void dueSame(PictureHouse house, int f, int k, int g, int j) {
-        int[] same = {0, 2, 3};
-        for (int what : same) {
-            Check.due("28: kept " + what, house.coded(g, j, what), house.coded(f, k, what));
-        }
-        int at = house.coded(f, k, 4) + 5;
-        int size = house.coded(f, k, 3);
-        int[] bytes = new int[size];
-        house.bytes(f);
-        for (int i = 0; i < size; i++) {
-            bytes[i] = house.tape(at + i);
-        }
-        house.bytes(g);
-        at = house.coded(g, j, 4) + 5;
-        for (int i = 0; i < size; i++) {
-            Check.due("28: byte for byte", house.tape(at + i), bytes[i]);
-        }
-        house.wipe();
+    /** Film 1 is cut from film 0, while settings that don't count are changed. */
+    private static House cutHouse(int between) {
+        House house = house(between);
+        house.set(0, 44);
+        house.set(4, 9);
+        house.set(1, 1);
+        house.set(5, 100);
+        house.set(7, 1);
+        house.row(0, 1, 5);
+        house.row(0, 6, 6);
+        house.row(0, 0, 3);
+        Check.due("28: its number", house.cut(), 1);
+        return house;
     }
 
     private static void keptAndAnew() {
         for (int between = 0; between <= 2; between++) {
-            PictureHouse house = house(between);
-            house.set(0, 44);
-            house.set(4, 9);
-            house.set(1, 1);
-            house.set(5, 100);
-            house.set(7, 1);
-            house.row(0, 1, 5);
-            house.row(0, 6, 6);
-            house.row(0, 0, 3);
-            Check.due("28: its number", house.cut(), 1);
+            House house = cutHouse(between);
             Check.due("28: the list is empty", house.count(4), 0);
             Check.due("20: the rate of the first", house.film(1, 3), 33);
             int[] from = {1, 2, 3, 4, 5, 6, 0, 1, 2, 3};
@@ -97,38 +83,54 @@ public final class CutsTest {
                     house.drop(p);
                 }
             }
-            int[] coded = {3, 4, 5, 6, 0, 1, 2};
-            for (int i = 0; i < coded.length; i++) {
-                dueSame(house, 0, coded[i], 1, i + 2);
-            }
             Check.due("20: groups", house.film(1, 6), 5);
-            anew(house, between);
+            keptBytes(between);
+            anew(between);
         }
     }
 
-    /** What is made anew is what make() makes of what is shown, by the STEP of the group. */
-    private static void anew(PictureHouse house, int between) {
-        PictureHouse other = house(between);
+    /** "byte for byte (but their places)". */
+    private static void keptBytes(int between) {
+        int[] old = Check.bytesOf(() -> cutHouse(between), 0);
+        int[] cut = Check.bytesOf(() -> cutHouse(between), 1);
+        House house = cutHouse(between);
+        int[] coded = {3, 4, 5, 6, 0, 1, 2};
+        for (int i = 0; i < coded.length; i++) {
+            int at = house.coded(0, coded[i], 4);
+            int to = house.coded(1, i + 2, 4);
+            int size = 5 + house.coded(0, coded[i], 3);
+            for (int j = 0; j < size; j++) {
+                if (j != 1) {
+                    Check.due("28: byte for byte", cut[to + j], old[at + j]);
+                }
+            }
+        }
+    }
+
+    /** What make() makes of what is shown at places 1 and 2, by the STEP of their group. */
+    private static House otherHouse(int between) {
+        House other = house(between);
         int p = other.shown(0, 1);
         other.shown(0, 2);
         other.unreel();
         other.reel(p);
         other.reel(p + 1);
         other.set(1, 12);
-        int f = other.make(0);
-        int[] bytes = new int[other.bytes(f)];
-        for (int i = 0; i < bytes.length; i++) {
-            bytes[i] = other.tape(i);
-        }
-        house.bytes(1);
-        for (int i = 7; i < bytes.length; i++) {
-            Check.due("28: made anew, byte " + i, house.tape(i), bytes[i]);
+        other.make(0);
+        return other;
+    }
+
+    private static void anew(int between) {
+        int[] want = Check.bytesOf(() -> otherHouse(between), 1);
+        int[] cut = Check.bytesOf(() -> cutHouse(between), 1);
+        for (int i = 7; i < want.length; i++) {
+            Check.due("28: made anew, byte " + i, cut[i], want[i]);
         }
     }
 
     /** A broken I that is kept is mended by what is ahead of it in its new film. */
     private static void mendedAnew() {
-        PictureHouse house = house(0);
+        House house = house(0);
         house.bytes(0);
         int at = house.coded(0, 3, 4) + 5;
         for (int i = 0; i < 3; i++) {
@@ -154,7 +156,7 @@ public final class CutsTest {
     }
 
     private static void notCut() {
-        PictureHouse house = house(0);
+        House house = house(0);
         Check.due("28: an empty list", house.cut(), -1);
         house.row(0, 0, 6);
         house.row(0, 0, 5);
@@ -184,7 +186,7 @@ public final class CutsTest {
 
     /** Groups of loud pictures whose first STEP is 1, which can't be made anew. */
     private static void large() {
-        PictureHouse house = new PictureHouse();
+        House house = new House();
         house.blank(24, 24, 128, 128, 128);
         house.blank(24, 24, 128, 128, 128);
         for (int plane = 0; plane < 3; plane++) {
@@ -206,7 +208,7 @@ public final class CutsTest {
     }
 
     private static void forget() {
-        PictureHouse house = house(0);
+        House house = house(0);
         house.row(0, 0, 0);
         house.cut();
         house.row(0, 0, 0);

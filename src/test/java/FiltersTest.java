@@ -8,11 +8,11 @@ public final class FiltersTest {
         Check.end("FiltersTest");
     }
 
-    private static final PictureHouse HOUSE = new PictureHouse();
+    private static final House HOUSE = new House();
 
     /** What a text makes of one sample, by a house of its own. */
     private static int value(String text, int plane, int x, int y, int t) {
-        PictureHouse house = new PictureHouse();
+        House house = new House();
         house.blank(16, 8, 0, 0, 0);
         for (int i = 0; i < 128; i++) {
             house.put(0, 0, i % 16, i / 16, i);
@@ -98,7 +98,7 @@ public final class FiltersTest {
     }
 
     private static void depth() {
-        PictureHouse house = new PictureHouse();
+        House house = new House();
         String[] twelve = {"(".repeat(12) + "x" + ")".repeat(12), "-".repeat(12) + "x",
             "-(".repeat(6) + "x" + ")".repeat(6), "a(1,".repeat(12) + "x" + ")".repeat(12),
             "(".repeat(11) + "-x-(x)" + ")".repeat(11)};
@@ -114,7 +114,7 @@ public final class FiltersTest {
     }
 
     private static void limits() {
-        PictureHouse house = new PictureHouse();
+        House house = new House();
         house.blank(8, 8, 1, 2, 3);
         Check.text(house, "x" + "+1".repeat(99) + " ");
         Check.due("31: 200 bytes", house.filter(), 0);

@@ -18,7 +18,7 @@ public final class MakingTest {
     }
 
     private static void settings() {
-        PictureHouse house = new PictureHouse();
+        House house = new House();
         int[] least = {1, 1, 0, 0, 1, 100, 50, 0};
         int[] most = {60, 12, 2, 8, 31, 20000, 10000, 1};
         for (int what = 0; what < 8; what++) {
@@ -38,7 +38,7 @@ public final class MakingTest {
     }
 
     private static void reel() {
-        PictureHouse house = new PictureHouse();
+        House house = new House();
         house.blank(8, 16, 10, 20, 30);
         house.blank(16, 8, 1, 2, 3);
         Check.due("15: how many", house.reel(0), 1);
@@ -63,7 +63,7 @@ public final class MakingTest {
     }
 
     private static void makeBadly() {
-        PictureHouse house = new PictureHouse();
+        House house = new House();
         house.blank(8, 8, 10, 20, 30);
         Check.badArgument("17: an empty reel", () -> house.make(0));
         house.reel(0);
@@ -77,8 +77,8 @@ public final class MakingTest {
         Check.due("17: the reel stays", house.count(3), 1);
     }
 
-    private static PictureHouse reelOf(int many) {
-        PictureHouse house = new PictureHouse();
+    private static House reelOf(int many) {
+        House house = new House();
         house.blank(8, 8, 100, 120, 130);
         house.noise(0, 0, 3L, 60);
         house.reel(0);
@@ -89,7 +89,7 @@ public final class MakingTest {
         return house;
     }
 
-    private static void ordersAre(PictureHouse house, int f, String want) {
+    private static void ordersAre(House house, int f, String want) {
         StringBuilder got = new StringBuilder();
         for (int k = 0; k < house.film(f, 4); k++) {
             got.append("IPB".charAt(house.coded(f, k, 0))).append(house.coded(f, k, 1)).append(' ');
@@ -98,7 +98,7 @@ public final class MakingTest {
     }
 
     private static void kinds() {
-        PictureHouse house = reelOf(11);
+        House house = reelOf(11);
         house.set(1, 6);
         ordersAre(house, house.make(0), "I0 P1 P2 P3 P4 P5 I6 P7 P8 P9 P10");
         house.set(2, 1);
@@ -120,7 +120,7 @@ public final class MakingTest {
     }
 
     private static void flatBlocks() {
-        PictureHouse house = new PictureHouse();
+        House house = new House();
         house.blank(8, 8, 128, 128, 136);
         house.reel(0);
         house.reel(0);
@@ -141,7 +141,7 @@ public final class MakingTest {
     }
 
     private static void vectors() {
-        PictureHouse house = new PictureHouse();
+        House house = new House();
         house.blank(16, 16, 128, 128, 128);
         house.noise(0, 0, 11L, 90);
         house.reel(0);
@@ -170,7 +170,7 @@ public final class MakingTest {
 
     /** What comes between is like the later one, and moved. */
     private static void backward() {
-        PictureHouse house = new PictureHouse();
+        House house = new House();
         house.blank(24, 24, 128, 128, 128);
         house.blank(24, 24, 128, 128, 128);
         house.noise(0, 0, 11L, 90);
@@ -194,8 +194,8 @@ public final class MakingTest {
         Check.due("17: as it was", house.look(f, 1, 0, 12, 12), house.sample(2, 0, 12, 12));
     }
 
-    private static int bytesOfGroup(PictureHouse from, int[] places, int between) {
-        PictureHouse house = reelOf(8);
+    private static int bytesOfGroup(House from, int[] places, int between) {
+        House house = reelOf(8);
         scenes(house);
         house.unreel();
         for (int place : places) {
@@ -206,7 +206,7 @@ public final class MakingTest {
         return house.film(house.make(0), 5) - 7;
     }
 
-    private static void scenes(PictureHouse house) {
+    private static void scenes(House house) {
         house.fill(2, 0, 0, 0, 8, 8, 9);
         house.fill(3, 0, 0, 0, 8, 4, 9);
         house.noise(5, 0, 99L, 100);
@@ -219,7 +219,7 @@ public final class MakingTest {
     /** All ways of groups are tried here one by one. */
     private static void plan() {
         for (int between = 0; between <= 2; between++) {
-            PictureHouse house = reelOf(8);
+            House house = reelOf(8);
             scenes(house);
             int[][] need = new int[8][5];
             for (int from = 0; from < 8; from++) {
@@ -254,7 +254,7 @@ public final class MakingTest {
                 Check.due("17: a group at " + k, house.coded(f, k, 5) == 1, begins[house.coded(f, k, 1)] && house.coded(f, k, 0) == 0);
             }
         }
-        PictureHouse flat = new PictureHouse();
+        House flat = new House();
         flat.blank(8, 8, 128, 128, 128);
         flat.reel(0);
         flat.reel(0);
@@ -265,7 +265,7 @@ public final class MakingTest {
     }
 
     private static void sized() {
-        PictureHouse house = reelOf(4);
+        House house = reelOf(4);
         int free = house.make(0);
         int[] size = {900, 1500};
         int[] flow = {120, 700};
@@ -314,8 +314,8 @@ public final class MakingTest {
         Check.due("17: of BLOCKS alone", house.make(2), before);
     }
 
-    private static PictureHouse loud() {
-        PictureHouse house = new PictureHouse();
+    private static House loud() {
+        House house = new House();
         house.blank(24, 24, 128, 128, 128);
         for (int plane = 0; plane < 3; plane++) {
             house.noise(0, plane, 5L + plane, 255);
@@ -325,7 +325,7 @@ public final class MakingTest {
     }
 
     private static void tooLarge() {
-        PictureHouse house = loud();
+        House house = loud();
         house.set(4, 1);
         Check.due("17: more than 2000 bytes", house.make(0), -1);
         house.set(7, 1);
@@ -349,7 +349,7 @@ public final class MakingTest {
         Check.due("19: nothing is done", house.tape(0), 5);
         Check.due("19: nothing is done", house.count(5), 1);
         Check.due("19: another", house.bytes(0), house.film(0, 5));
-        PictureHouse full = new PictureHouse();
+        House full = new House();
         full.blank(24, 24, 128, 128, 128);
         for (int plane = 0; plane < 3; plane++) {
             full.noise(0, plane, 38L + plane, 150);
@@ -370,7 +370,7 @@ public final class MakingTest {
     }
 
     private static void waves() {
-        PictureHouse house = new PictureHouse();
+        House house = new House();
         house.blank(8, 8, 40, 7, 0);
         house.reel(0);
         int f = house.make(1);
@@ -383,7 +383,7 @@ public final class MakingTest {
     }
 
     private static void runs() {
-        PictureHouse house = new PictureHouse();
+        House house = new House();
         house.blank(8, 8, 40, 7, 0);
         house.put(0, 0, 3, 1, 99);
         house.reel(0);
@@ -407,7 +407,7 @@ public final class MakingTest {
         for (int place = 0; place < 2; place++) {
             Check.due("17: as it was", house.look(f, place, 0, 3, 1), 99);
         }
-        PictureHouse flat = new PictureHouse();
+        House flat = new House();
         flat.blank(8, 8, 0, 0, 0);
         for (int y = 0; y < 8; y++) {
             for (int x = 0; x < 8; x++) {
@@ -432,7 +432,7 @@ public final class MakingTest {
     private static void backAndForth() {
         int[][] sizes = {{8, 8}, {24, 8}, {16, 24}, {24, 24}};
         for (int[] size : sizes) {
-            PictureHouse house = new PictureHouse();
+            House house = new House();
             house.blank(size[0], size[1], 100, 50, 200);
             house.noise(0, 0, 7L, 30);
             house.noise(0, 1, 8L, 3);

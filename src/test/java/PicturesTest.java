@@ -19,7 +19,7 @@ public final class PicturesTest {
     }
 
     private static void newObject() {
-        PictureHouse house = new PictureHouse();
+        House house = new House();
         for (int what = 0; what <= 5; what++) {
             Check.due("1: count(" + what + ") of a new object", house.count(what), 0);
         }
@@ -40,7 +40,7 @@ public final class PicturesTest {
     }
 
     private static void blank() {
-        PictureHouse house = new PictureHouse();
+        House house = new House();
         Check.due("2: blank", house.blank(8, 24, 0, 255, 7), 0);
         Check.due("2: blank", house.blank(16, 8, 1, 2, 3), 1);
         Check.due("2: plane 0", house.sample(0, 0, 7, 23), 0);
@@ -67,7 +67,7 @@ public final class PicturesTest {
     }
 
     private static void fill() {
-        PictureHouse house = new PictureHouse();
+        House house = new House();
         house.blank(16, 8, 1, 2, 3);
         Check.due("3: inside", house.fill(0, 0, 3, 2, 4, 5, 200), 20);
         Check.due("3: first", house.sample(0, 0, 3, 2), 200);
@@ -95,7 +95,7 @@ public final class PicturesTest {
     }
 
     private static void noise() {
-        PictureHouse house = new PictureHouse();
+        House house = new House();
         house.blank(8, 8, 100, 3, 250);
         int[] base = {100, 3, 250};
         int[] amounts = {40, 255, 9};
@@ -120,7 +120,7 @@ public final class PicturesTest {
     }
 
     private static void shift() {
-        PictureHouse house = new PictureHouse();
+        House house = new House();
         house.blank(8, 16, 0, 0, 0);
         for (int i = 0; i < 128; i++) {
             house.put(0, 0, i % 8, i / 8, i);
@@ -157,7 +157,7 @@ public final class PicturesTest {
     }
 
     private static void putAndSample() {
-        PictureHouse house = new PictureHouse();
+        House house = new House();
         house.blank(24, 8, 1, 2, 3);
         Check.due("6: what it was", house.put(0, 0, 23, 7, 255), 1);
         Check.due("6: what it was", house.put(0, 0, 23, 7, 0), 255);
@@ -176,7 +176,7 @@ public final class PicturesTest {
     }
 
     private static void size() {
-        PictureHouse house = new PictureHouse();
+        House house = new House();
         house.blank(24, 16, 1, 2, 3);
         Check.due("8: width", house.size(0, 0), 24);
         Check.due("8: height", house.size(0, 1), 16);
@@ -186,7 +186,7 @@ public final class PicturesTest {
     }
 
     private static void drop() {
-        PictureHouse house = new PictureHouse();
+        House house = new House();
         for (int i = 0; i < 5; i++) {
             house.blank(8, 8, i, i, i);
         }
@@ -202,7 +202,7 @@ public final class PicturesTest {
     }
 
     private static void feed() {
-        PictureHouse house = new PictureHouse();
+        House house = new House();
         Check.due("10: three", house.feed(0x7766554433221100L, 3), 3);
         Check.due("10: eight", house.feed(-2L, 8), 11);
         int[] want = {0, 0x11, 0x22, 254, 255, 255, 255, 255, 255, 255, 255, -1};
@@ -212,18 +212,33 @@ public final class PicturesTest {
         Check.badArgument("10: none", () -> house.feed(0, 0));
         Check.badArgument("10: nine", () -> house.feed(0, 9));
         Check.badArgument("10: below 0", () -> house.feed(0, -1));
-        for (int i = 0; i < 498; i++) {
-            house.feed(0, 8);
+        int[] had = {3992, 3993, 3999, 3999, 4000, 4000};
+        int[] more = {8, 8, 1, 2, 1, 8};
+        for (int i = 0; i < had.length; i++) {
+            fullTape(had[i], more[i]);
         }
-        Check.badState("10: 4003", () -> house.feed(0, 8));
-        Check.due("10: nothing was changed", house.count(5), 3995);
-        Check.due("10: 4000", house.feed(1, 5), 4000);
-        Check.badState("10: 4001", () -> house.feed(0, 1));
-        Check.badArgument("10: the argument is looked at first", () -> house.feed(0, 9));
+    }
+
+    /** "there would be more than 4000". */
+    private static void fullTape(int had, int more) {
+        House house = new House();
+        for (int i = 0; i < had / 8; i++) {
+            house.feed(i, 8);
+        }
+        for (int i = 0; i < had % 8; i++) {
+            house.feed(i, 1);
+        }
+        if (had + more <= 4000) {
+            Check.due("10: " + more + " behind " + had, house.feed(77, more), had + more);
+            Check.due("10: the first of them", house.tape(had), 77);
+        } else {
+            Check.badState("10: " + more + " behind " + had, () -> house.feed(77, more));
+            Check.due("10: nothing was changed", house.count(5), had);
+        }
     }
 
     private static void alterTapeWipe() {
-        PictureHouse house = new PictureHouse();
+        House house = new House();
         Check.noSuch("11: none", () -> house.alter(0, 1));
         house.feed(0xC8, 2);
         Check.due("11: what it was", house.alter(0, 0x1FF), 200);
@@ -242,7 +257,7 @@ public final class PicturesTest {
     }
 
     private static void count() {
-        PictureHouse house = new PictureHouse();
+        House house = new House();
         house.blank(8, 8, 1, 2, 3);
         house.blank(8, 8, 1, 2, 3);
         house.reel(0);

@@ -11,8 +11,8 @@ public final class PlayersTest {
     }
 
     /** Film 0 of BLOCKS: I P I P. */
-    private static PictureHouse house() {
-        PictureHouse house = new PictureHouse();
+    private static House house() {
+        House house = new House();
         house.blank(8, 8, 100, 120, 130);
         house.noise(0, 0, 3L, 60);
         house.reel(0);
@@ -27,7 +27,7 @@ public final class PlayersTest {
     }
 
     private static void badly() {
-        PictureHouse house = house();
+        House house = house();
         int[] none = {-1, 4, Integer.MAX_VALUE};
         for (int y : none) {
             Check.noSuch("37: player", () -> house.play(y, 0, 0, 0));
@@ -60,14 +60,14 @@ public final class PlayersTest {
         Check.badArgument("41: what below 0", () -> house.player(3, -1));
     }
 
-    private static void stands(PictureHouse house, int y, int... want) {
+    private static void stands(House house, int y, int... want) {
         for (int what = 0; what < want.length; what++) {
             Check.due("41: " + what, house.player(y, what), want[what]);
         }
     }
 
     private static void ticks() {
-        PictureHouse house = house();
+        House house = house();
         int all = house.film(0, 5);
         int end = house.coded(0, 1, 4);
         int speed = (end + 1) / 2;
@@ -104,7 +104,7 @@ public final class PlayersTest {
 
     /** I0 P3 B1 B2: a B has come when the P ahead of it in the film has. */
     private static void between() {
-        PictureHouse house = house();
+        House house = house();
         house.set(1, 4);
         house.set(2, 2);
         int f = house.make(0);
@@ -125,7 +125,7 @@ public final class PlayersTest {
     }
 
     private static void lost() {
-        PictureHouse house = house();
+        House house = house();
         house.play(0, 0, 4000, 0);
         house.lose(0, 1);
         Check.due("38: the lost one comes like others", house.tick(0), 0);
@@ -189,7 +189,7 @@ public final class PlayersTest {
     }
 
     private static void seeks() {
-        PictureHouse house = house();
+        House house = house();
         int second = house.coded(0, 2, 4);
         int end = house.coded(0, 3, 4) + 5 + house.coded(0, 3, 3);
         house.play(0, 0, 20, 30);
@@ -222,7 +222,7 @@ public final class PlayersTest {
     }
 
     private static void again() {
-        PictureHouse house = house();
+        House house = house();
         house.play(0, 0, 4000, 0);
         house.play(1, 0, 1, 0);
         house.tick(0);

@@ -1,9 +1,6 @@
 /** Promises 18 to 26: films by hand, whole and broken ones, and what is asked of them. */
 public final class ReadingTest {
     public static void main(String[] args) {
-        wrongHeads();
-        wrongOrders();
-        groups();
         blocksWhole();
         blocksForetold();
         blocksVectors();
@@ -16,116 +13,7 @@ public final class ReadingTest {
         Check.end("ReadingTest");
     }
 
-    private static final Check.Bits FLAT = Check.bits().code(0).empty(6);
-
-    private static void wrong(String what, int place, int... tape) {
-        PictureHouse house = new PictureHouse();
-        Check.onTape(house, tape);
-        Check.due("18: " + what, house.read(), -1 - place);
-        Check.due("18: the tape is empty", house.count(5), 0);
-        Check.due("18: no film", house.count(1), 0);
-    }
-
-    private static void wrongHeads() {
-        int[] good = Check.join(Check.head(0, 8, 8, 25, 1), Check.picture(0, 0, 4, FLAT));
-        int[] least = {77, 70, 0, 1, 1, 1, 1, 0, 0, 1};
-        int[] most = {77, 70, 2, 3, 3, 60, 12, 0, 0, 31};
-        for (int i = 0; i < least.length; i++) {
-            int[] low = good.clone();
-            low[i] = least[i] - 1 & 255;
-            wrong("byte " + i + " is too low", i, low);
-            int[] high = good.clone();
-            high[i] = most[i] + 1;
-            wrong("byte " + i + " is too high", i, high);
-        }
-        for (int n = 0; n < good.length; n++) {
-            wrong("the end at " + n, n, java.util.Arrays.copyOf(good, n));
-        }
-        wrong("a byte behind", good.length, Check.join(good, new int[] {0}));
-        int[] large = good.clone();
-        large[10] = 7;
-        large[11] = 209;
-        wrong("2001 bytes", 10, large);
-        large[11] = 208;
-        wrong("2000 bytes that aren't there", good.length, large);
-        large[10] = 8;
-        wrong("2048 and more, though the lower byte is lacking", 10, java.util.Arrays.copyOf(large, 11));
-        PictureHouse stale = new PictureHouse();
-        large[10] = 7;
-        large[11] = 209;
-        Check.onTape(stale, large);
-        Check.due("18: 2001 bytes", stale.read(), -11);
-        Check.onTape(stale, java.util.Arrays.copyOf(large, 11));
-        Check.due("18: what was on the tape ahead is gone", stale.read(), -12);
-        int[] waves = good.clone();
-        waves[2] = 1;
-        wrong("a step of WAVES", 9, waves);
-        waves[2] = 2;
-        wrong("a step of RUNS", 9, waves);
-        PictureHouse tape = new PictureHouse();
-        Check.due("18: a whole tape", Check.film(tape, Check.head(0, 8, 8, 25, 2)
-            , new int[] {0, 0, 4, 7, 208}, new int[2000], new int[] {1, 1, 4, 7, 191}, new int[1983]), 0);
-        Check.due("19: 4000 bytes", tape.bytes(0), 4000);
-        PictureHouse house = new PictureHouse();
-        Check.onTape(house, Check.join(Check.head(0, 8, 8, 25, 1), new int[] {0, 0, 4, 7, 208}, new int[2000]));
-        Check.due("18: 2000 bytes", house.read(), 0);
-        Check.due("21: 2000 bytes", house.coded(0, 0, 3), 2000);
-    }
-
-    /** Films of empty pictures: a pair of kind and place for each. */
-    private static int[] orders(int coding, int... pairs) {
-        int[] all = Check.head(coding, 8, 8, 25, pairs.length / 2);
-        for (int i = 0; i < pairs.length; i += 2) {
-            all = Check.join(all, new int[] {pairs[i], pairs[i + 1], coding == 0 ? 1 : 0, 0, 0});
-        }
-        return all;
-    }
-
-    private static void right(String what, int[] tape) {
-        PictureHouse house = new PictureHouse();
-        Check.onTape(house, tape);
-        Check.due("18: " + what, house.read(), 0);
-    }
-
-    private static int at(int k, int i) {
-        return 7 + 5 * k + i;
-    }
-
-    private static void wrongOrders() {
-        right("I P B B P", orders(0, 0, 0, 1, 3, 2, 2, 2, 1, 1, 4));
-        right("I I B I", orders(0, 0, 0, 0, 2, 2, 1, 0, 3));
-        right("I P P of RUNS", orders(2, 0, 0, 1, 1, 1, 2));
-        right("I I of WAVES", orders(1, 0, 0, 0, 1));
-        wrong("the first is no I", at(0, 0), orders(0, 1, 0));
-        wrong("P of WAVES", at(1, 0), orders(1, 0, 0, 1, 1));
-        wrong("B of RUNS", at(2, 0), orders(2, 0, 0, 1, 2, 2, 1));
-        wrong("a place beyond", at(0, 1), orders(0, 0, 1));
-        wrong("an anchor's place twice", at(1, 1), orders(0, 0, 0, 1, 0));
-        wrong("an anchor's place below", at(2, 1), orders(0, 0, 0, 1, 2, 1, 1, 1, 3));
-        wrong("a B behind one anchor", at(1, 0), orders(0, 0, 0, 2, 1));
-        wrong("a B's place is the later one's", at(2, 1), orders(0, 0, 0, 1, 2, 2, 2));
-        wrong("a B's place is the earlier one's", at(2, 1), orders(0, 0, 0, 1, 2, 2, 0));
-        wrong("a B's place is above", at(2, 1), orders(0, 0, 0, 1, 2, 2, 3, 1, 3));
-        wrong("a B's place twice", at(3, 1), orders(0, 0, 0, 1, 3, 2, 1, 2, 1));
-        wrong("no place left between", at(2, 0), orders(0, 0, 0, 1, 1, 2, 0));
-        wrong("no place left between any more", at(3, 0), orders(0, 0, 0, 1, 2, 2, 1, 2, 1));
-        wrong("no place left above", at(2, 0), orders(0, 0, 0, 1, 2, 1, 1));
-        wrong("a place lost at the beginning is seen where none is left", at(1, 0), orders(0, 0, 1, 1, 0));
-    }
-
-    private static void groups() {
-        PictureHouse house = new PictureHouse();
-        Check.onTape(house, orders(0, 0, 0, 0, 2, 2, 1, 0, 3, 1, 4, 0, 6, 2, 5));
-        int f = house.read();
-        int[] begins = {1, 0, 0, 1, 0, 0, 0};
-        for (int k = 0; k < 7; k++) {
-            Check.due("21: whether a group begins at " + k, house.coded(f, k, 5), begins[k]);
-        }
-        Check.due("20: groups", house.film(f, 6), 2);
-        Check.due("20: all have a spot", house.film(f, 7), 7);
-    }
-
-    private static void samplesAre(PictureHouse house, int f, int place, int plane, int[] want, int wide) {
+    private static void samplesAre(House house, int f, int place, int plane, int[] want, int wide) {
         for (int i = 0; i < want.length; i++) {
             int got = house.look(f, place, plane, i % wide, i / wide);
             Check.due("23: film " + f + " place " + place + " plane " + plane + " sample " + i, got, want[i]);
@@ -133,7 +21,7 @@ public final class ReadingTest {
     }
 
     private static void blocksWhole() {
-        PictureHouse house = new PictureHouse();
+        House house = new House();
         // DC of the first block; place 1 of the scan in the second; the last place in the fifth.
         Check.Bits bits = Check.bits().code(0)
             .code(1).code(0).signed(2)
@@ -165,7 +53,7 @@ public final class ReadingTest {
 
     /** Three by two parts in which each way of I is seen with and without neighbours. */
     private static void blocksForetold() {
-        PictureHouse house = new PictureHouse();
+        House house = new House();
         Check.Bits bits = Check.bits();
         bits.code(1).code(1).code(0).signed(64).empty(5);
         bits.code(1).empty(6);
@@ -195,7 +83,7 @@ public final class ReadingTest {
 
     /** An I with a step at x = 4, then a P that looks at it. */
     private static void blocksVectors() {
-        PictureHouse house = new PictureHouse();
+        House house = new House();
         Check.Bits intra = Check.bits();
         for (int m = 0; m < 2; m++) {
             intra.code(0);
@@ -253,7 +141,7 @@ public final class ReadingTest {
 
     /** I 100, P 200, and Bs between. */
     private static void blocksBetween() {
-        PictureHouse house = new PictureHouse();
+        House house = new House();
         Check.Bits dark = level(-7).empty(0);
         Check.Bits light = Check.bits().code(2).code(1).code(0).signed(18).code(1).code(0).signed(18)
             .code(1).code(0).signed(18).code(1).code(0).signed(18).empty(2);
@@ -292,7 +180,7 @@ public final class ReadingTest {
     }
 
     private static void broken(String what, int rule, int spot, int coding, Check.Bits bits) {
-        PictureHouse house = new PictureHouse();
+        House house = new House();
         int f = Check.film(house, Check.head(coding, 16, 8, 30, 1), Check.picture(0, 0, coding == 0 ? 4 : 0, bits));
         Check.due("21: rule: " + what, house.coded(f, 0, 6), rule);
         Check.due("21: spot: " + what, house.coded(f, 0, 7), spot);
@@ -333,7 +221,7 @@ public final class ReadingTest {
         broken("15 zeros", 7, 1, 0, one().raw("0".repeat(15)));
         broken("15 zeros and more", 7, 0, 0, Check.bits().code(0).raw("0".repeat(15)).raw("1".repeat(30)));
         broken("14 zeros", 2, 0, 0, Check.bits().raw("0".repeat(14)).raw("1".repeat(15)));
-        PictureHouse house = new PictureHouse();
+        House house = new House();
         Check.Bits none = Check.bits();
         int f = Check.film(house, Check.head(0, 8, 8, 30, 4), Check.picture(0, 0, 16, level(-7)),
             Check.picture(0, 1, 16, none), Check.picture(1, 3, 16, level(-8)), Check.picture(2, 2, 16, none));
@@ -344,7 +232,7 @@ public final class ReadingTest {
     }
 
     private static void waves() {
-        PictureHouse house = new PictureHouse();
+        House house = new House();
         // A flat plane of 8 by 8 has four numbers, one of 4 by 4 has one.
         Check.Bits flat = Check.bits().code(0).signed(40).code(0).signed(40).code(6).signed(40)
             .code(0).signed(40).code(54).code(0).signed(300).code(15).code(0).signed(-9).code(15);
@@ -380,7 +268,7 @@ public final class ReadingTest {
     }
 
     private static void runs() {
-        PictureHouse house = new PictureHouse();
+        House house = new House();
         Check.Bits first = Check.bits();
         first.code(3).code(7);
         for (int i = 0; i < 8; i++) {
@@ -425,7 +313,7 @@ public final class ReadingTest {
     }
 
     private static void asked() {
-        PictureHouse house = new PictureHouse();
+        House house = new House();
         int f = Check.film(house, Check.head(0, 16, 8, 33, 2),
             Check.picture(0, 0, 9, one().code(0).empty(6)), Check.picture(1, 1, 31, Check.bits().code(0).code(0)));
         int[] film = {0, 16, 8, 33, 2, 7 + 5 + 2 + 5 + 1, 1, 0};
@@ -472,7 +360,7 @@ public final class ReadingTest {
     }
 
     private static void shownAndBuffer() {
-        PictureHouse house = new PictureHouse();
+        House house = new House();
         int f = Check.film(house, Check.head(0, 8, 8, 33, 2),
             Check.picture(0, 0, 16, level(-7)), Check.picture(1, 1, 16, Check.bits().code(0)));
         Check.due("25: its number", house.shown(f, 1), 0);

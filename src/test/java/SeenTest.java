@@ -9,7 +9,7 @@ public final class SeenTest {
     }
 
     private static void distance() {
-        PictureHouse house = new PictureHouse();
+        House house = new House();
         house.blank(8, 16, 100, 100, 100);
         house.shift(0, 0, 0);
         house.put(1, 0, 7, 15, 90);
@@ -31,7 +31,7 @@ public final class SeenTest {
 
     /** A film of RUNS, which shows the pictures of the reel as they are. */
     private static void first() {
-        PictureHouse house = new PictureHouse();
+        House house = new House();
         house.blank(8, 8, 15, 0, 0);
         house.reel(0);
         house.fill(0, 0, 0, 0, 8, 4, 16);
@@ -54,7 +54,7 @@ public final class SeenTest {
     }
 
     private static void twin() {
-        PictureHouse house = new PictureHouse();
+        House house = new House();
         house.blank(8, 8, 15, 0, 0);
         house.blank(8, 8, 15, 0, 1);
         house.blank(8, 8, 15, 1, 0);
@@ -73,7 +73,7 @@ public final class SeenTest {
     }
 
     private static void movement() {
-        PictureHouse house = new PictureHouse();
+        House house = new House();
         house.blank(24, 16, 100, 100, 100);
         house.noise(0, 0, 5L, 90);
         house.reel(0);
@@ -107,7 +107,7 @@ public final class SeenTest {
     }
 
     /** Boards and stripes whose fields have changed: several ways are as near. */
-    private static void ties(PictureHouse house) {
+    private static void ties(House house) {
         house.unreel();
         house.drop(0);
         house.blank(24, 24, 0, 0, 0);
