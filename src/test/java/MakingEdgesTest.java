@@ -22,6 +22,7 @@ public final class MakingEdgesTest {
         kindsOfBlocks();
         kindsOfOthers();
         plannedGroups();
+        plannedAheadOfSize();
         rates();
         levelsRounded();
         levelsOfBothSigns();
@@ -189,6 +190,37 @@ public final class MakingEdgesTest {
         flat.set(PLAN, 1);
         // Each picture has one byte, be it I or P.
         ordersAre("the shortest of all ways", flat, BLOCKS, ordersDue(12, 1, 0));
+    }
+
+    private static House scenes() {
+        House house = new House();
+        for (int p = 0; p < 9; p++) {
+            house.blank(8, 8, 128, 128, 128);
+            house.noise(p, 0, p / 3 + p / 4, 90);
+            house.noise(p, 0, p, 9);
+            house.reel(p);
+        }
+        house.set(PLAN, 1);
+        return house;
+    }
+
+    /** "(PLAN counts with the STEP told then, and SIZE comes after.)" */
+    private static void plannedAheadOfSize() {
+        House free = scenes();
+        String want = ordersOf(free, free.make(BLOCKS));
+        Check.due("20: more than one group, less than nine", free.film(0, 6) > 1 && free.film(0, 6) < 9, true);
+        int[][] buffers = {{1200, 700}, {1500, 500}, {20000, 10000}};
+        for (int[] buffer : buffers) {
+            House house = scenes();
+            house.set(SIZE, buffer[0]);
+            house.set(FLOW, buffer[1]);
+            ordersAre("a plan with SIZE " + buffer[0], house, BLOCKS, want);
+            int most = 0;
+            for (int k = 0; k < 9; k++) {
+                most = Math.max(most, house.coded(0, k, 2));
+            }
+            Check.due("21: STEPs were changed by SIZE " + buffer[0], most > 4, buffer[0] < 20000);
+        }
     }
 
     private static void rates() {
