@@ -209,7 +209,7 @@ public final class MakingEdgesTest {
         House free = scenes();
         String want = ordersOf(free, free.make(BLOCKS));
         Check.due("20: more than one group, less than nine", free.film(0, 6) > 1 && free.film(0, 6) < 9, true);
-        int[][] buffers = {{1200, 700}, {1500, 500}, {20000, 10000}};
+        int[][] buffers = {{1000, 400}, {2000, 300}, {20000, 10000}};
         for (int[] buffer : buffers) {
             House house = scenes();
             house.set(SIZE, buffer[0]);
