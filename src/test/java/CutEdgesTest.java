@@ -248,6 +248,19 @@ public final class CutEdgesTest {
                 Check.due("43: the list is empty then", house.count(4), 0);
             }
         }
+        House house = house(0);
+        house.unreel();
+        house.reel(house.blank(16, 8, 1, 2, 3));
+        house.reel(house.blank(16, 8, 3, 2, 1));
+        house.set(SIZE, 0);
+        house.make(0);
+        house.row(1, 0, 0);
+        house.row(1, 1, 1);
+        Check.due("28: a film behind one of another size", house.cut(), 2);
+        Check.due("20: its width", house.film(2, 1), 16);
+        house.row(1, 1, 1);
+        house.row(0, 1, 1);
+        Check.due("28: another size", house.cut(), -1);
     }
 
     /** An I of STEP 1, and a P whose picture needs so many bytes if it is made anew with that STEP. */

@@ -7,6 +7,7 @@ public final class FilmEdgesTest {
         sixtyPictures();
         picturesWithASpot();
         whereHeadsBegin();
+        headBehindFourThousand();
         Check.end("FilmEdgesTest");
     }
 
@@ -141,5 +142,19 @@ public final class FilmEdgesTest {
             Check.due("21: how many bytes", house.coded(f, k, 3), sizes[k]);
             Check.due("21: STEP", house.coded(f, k, 2), steps[k]);
         }
+    }
+
+    /** A film may be longer than the tape: the fourth head is right behind the 4000th byte. */
+    private static void headBehindFourThousand() {
+        House house = large(57);
+        house.reel(0);
+        house.reel(1);
+        int f = house.make(1);
+        Check.due("17: it is made", f, 1);
+        Check.due("21: where", house.coded(f, 3, 4), 4000);
+        Check.due("21: PLACE", house.coded(f, 3, 1), 3);
+        Check.due("20: none has a spot", house.film(f, 7), 0);
+        Check.due("33: as it was", house.distance(0, house.shown(f, 3), 2), 0);
+        Check.due("33: as it was", house.distance(1, house.shown(f, 4), 2), 0);
     }
 }

@@ -123,6 +123,7 @@ public final class HeadsTest {
             judged("the third place of four is " + place, fine, gap ? at(3, 0) : at(2, 1),
                 orders(0, I, 0, P, 1, P, place, P, 3));
         }
+        wrong("below the first one, though none has it", at(1, 1), orders(0, I, 1, P, 0, P, 2));
         wrong("below the latest one, though none has it", at(2, 1), orders(0, I, 0, P, 2, P, 1, P, 3));
         wrong("below the latest one, an I", at(2, 1), orders(0, I, 0, I, 2, I, 1, I, 3));
         wrong("below the latest one of RUNS", at(2, 1), orders(2, I, 0, P, 2, P, 1, P, 3));

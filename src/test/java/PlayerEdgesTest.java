@@ -28,6 +28,7 @@ public final class PlayerEdgesTest {
         fourPlayers();
         nothingWasShown();
         longFilm();
+        onePicture();
         Check.end("PlayerEdgesTest");
     }
 
@@ -399,6 +400,19 @@ public final class PlayerEdgesTest {
         Check.badState("42: no film, x", () -> house.frame(1, 0, 8, 0));
         Check.badState("42: no film, y", () -> house.frame(1, 0, 0, -1));
         Check.noSuch("42: no film, plane", () -> house.frame(1, 3, 0, 0));
+    }
+
+    private static void onePicture() {
+        House house = new House();
+        house.reel(house.blank(8, 24, 9, 8, 7));
+        int f = house.make(2);
+        int all = house.film(f, 5);
+        house.play(3, f, all - 1, 0);
+        Check.due("38: all bytes but one", house.tick(3), -1);
+        Check.due("38: all", house.tick(3), 0);
+        Check.due("42: the last sample", house.frame(3, 0, 7, 23), 9);
+        Check.due("42: the last sample of plane 2", house.frame(3, 2, 3, 11), 7);
+        Check.due("38: it was the only one", house.tick(3), -3);
     }
 
     /** A film of more than 4000 bytes comes by 4000 in a tick, and FILL counts up to 4000. */

@@ -94,6 +94,8 @@ public final class SeenEdgesTest {
                 house.reel(0);
                 house.fill(0, 0, 0, 0, size[0], moved / size[0], 200);
                 house.fill(0, 0, 0, moved / size[0], moved % size[0], 1, 200);
+                house.fill(0, 1, 0, 0, 12, 12, 255);
+                house.fill(0, 2, 0, 0, 12, 12, 255);
                 house.reel(0);
                 int f = house.make(RUNS);
                 // Each one that goes to another range differs twice, there and here.
@@ -246,5 +248,27 @@ public final class SeenEdgesTest {
             Check.due("36: part " + m, house.movement(f, 1, m, 2) > 0, changed);
         }
         Check.noSuch("36: no part 6", () -> house.movement(f, 1, 6, 0));
+        for (int part = 0; part < 9; part++) {
+            for (int corner = 0; corner < 4; corner++) {
+                cornerOfPart(part, corner);
+            }
+        }
+    }
+
+    /** A sample in a part's corner is changed: the part alone is not as it was, by that sample. */
+    private static void cornerOfPart(int part, int corner) {
+        House house = new House();
+        house.blank(24, 24, 100, 1, 1);
+        house.noise(0, 0, 4L, 90);
+        house.reel(0);
+        int x = part % 3 * 8 + corner % 2 * 7;
+        int y = part / 3 * 8 + corner / 2 * 7;
+        int was = house.sample(0, 0, x, y);
+        house.put(0, 0, x, y, was < 128 ? was + 20 : was - 20);
+        house.reel(0);
+        int f = house.make(RUNS);
+        for (int m = 0; m < 9; m++) {
+            Check.due("36: part " + m + ", a corner of " + part, house.movement(f, 1, m, 2), m == part ? 20 : 0);
+        }
     }
 }
