@@ -21,11 +21,15 @@ public final class BlocksEdgesTest {
         restHeld();
         steps();
         foretoldAtTheSides();
+        foretoldInAllKinds();
+        foretoldRowByRow();
         meanRounded();
+        bothRounded();
         beyondThePlane();
         halvesRounded();
         mendedFrom();
         mendedParts();
+        mendedNothingElse();
         Check.end("BlocksEdgesTest");
     }
 
@@ -359,24 +363,142 @@ public final class BlocksEdgesTest {
         }
     }
 
-    /** "their sum and half of how many, divided by how many (whole part)". */
-    private static void meanRounded() {
-        int[] levels = {3 * 16, 4 * 16, 5 * 16};
-        for (int level : levels) {
-            House house = new House();
-            // Of the eight samples on the left of the second part the lower four are level / 16 more.
-            Check.Bits two = bits().code(0).empty(3).code(1).code(0).signed(level).empty(2).code(0).empty(6);
-            int f = Check.film(house, filmOf(I, 16, 1, two));
-            int more = level / 16;
-            Check.due("23: MEAN", house.look(f, 0, 0, 15, 0), (4 * 128 + 4 * (128 + more) + 4) / 8);
+    /** "2 to 4 as 0 to 2 in I", "4 to 6 as 0 to 2 in I": the same three ways in P and B. */
+    private static void foretoldInAllKinds() {
+        for (int kind = I; kind <= B; kind++) {
+            for (int way = 0; way < 3; way++) {
+                int told = way + 2 * kind;
+                Check.Bits four = bits().code(2 * kind);
+                for (int block = 0; block < 4; block++) {
+                    four.code(1).code(0).signed(32 * 16);
+                }
+                four.empty(2).code(told).empty(6).code(told).empty(6).code(told).empty(6);
+                int[] flat = Check.picture(I, 0, 1, flat(4));
+                House house = new House();
+                int f = kind == I ? Check.film(house, Check.head(0, 16, 16, 25, 1), Check.picture(I, 0, 1, four))
+                    : kind == P ? Check.film(house, Check.head(0, 16, 16, 25, 2), flat, Check.picture(P, 1, 1, four))
+                    : Check.film(house, Check.head(0, 16, 16, 25, 3), flat, Check.picture(I, 2, 1, flat(4)), Check.picture(B, 1, 1, four));
+                int place = kind == I ? 0 : 1;
+                String name = "23: way " + way + " in kind " + kind;
+                Check.due(name, house.look(f, place, 0, 0, 0), 160);
+                Check.due(name, house.look(f, place, 0, 15, 0), way == 2 ? 128 : 160);
+                Check.due(name, house.look(f, place, 0, 0, 15), way == 1 ? 128 : 160);
+                Check.due("22: way", house.part(f, kind, 1, 0), told);
+                Check.due("21: whole", house.coded(f, kind, 6), 0);
+            }
         }
-        int[] single = {7, 8, 9};
-        for (int sum : single) {
-            // Three blocks' levels make the left samples differ so that the sum is 8 * 128 + 4 * sum.
+    }
+
+    /** A block whose row 0 is so much more in all columns, or (turned) whose column 0 is in all rows. */
+    private static Check.Bits oneRow(Check.Bits to, int more, boolean turned) {
+        // Places 0, 4, 8, 12 stand at 0, 2, 3, 9 of the scan, places 0, 1, 2, 3 at 0, 1, 5, 6.
+        int[] passed = turned ? new int[] {0, 0, 3, 0} : new int[] {0, 1, 0, 5};
+        to.code(4);
+        for (int p : passed) {
+            to.code(p).signed(4 * more);
+        }
+        return to;
+    }
+
+    /** "LEFT: for each row the sample just left", "ABOVE: for each column likewise". */
+    private static void foretoldRowByRow() {
+        House house = new House();
+        Check.Bits four = bits().code(0);
+        // Row 0 of the upper right block and row 4 of the lower right one; then columns of the lower ones.
+        oneRow(four.empty(1), 40, false);
+        oneRow(four, 9, true);
+        oneRow(four, -50, true);
+        oneRow(four, 70, false);
+        oneRow(four, 30, true);
+        four.code(1).empty(6).code(2).empty(6).code(2).empty(6);
+        int f = Check.film(house, Check.head(0, 16, 16, 25, 1), Check.picture(I, 0, 1, four));
+        Check.due("21: whole", house.coded(f, 0, 6), 0);
+        Check.due("23: row 0", house.look(f, 0, 0, 7, 0), 168);
+        Check.due("23: row 1", house.look(f, 0, 0, 7, 1), 128);
+        Check.due("23: column 0", house.look(f, 0, 0, 0, 7), 137);
+        Check.due("23: column 4", house.look(f, 0, 0, 4, 7), 78);
+        Check.due("23: column 5", house.look(f, 0, 0, 5, 7), 128);
+        for (int i = 0; i < 8; i++) {
+            for (int far = 8; far < 16; far += 7) {
+                Check.due("23: LEFT in row " + i, house.look(f, 0, 0, far, i), house.look(f, 0, 0, 7, i));
+                Check.due("23: ABOVE in column " + i, house.look(f, 0, 0, i, far), house.look(f, 0, 0, i, 7));
+                Check.due("23: ABOVE in column " + (8 + i), house.look(f, 0, 0, 8 + i, far), house.look(f, 0, 0, 8 + i, 7));
+            }
+            int j = i % 4;
+            Check.due("23: LEFT in plane 1", house.look(f, 0, 1, 4 + i / 4, j), house.look(f, 0, 1, 3, j));
+            Check.due("23: ABOVE in plane 2", house.look(f, 0, 2, j, 4 + i / 4), house.look(f, 0, 2, j, 3));
+        }
+        Check.due("23: plane 1, row 0", house.look(f, 0, 1, 7, 0), 198);
+        Check.due("23: plane 2, column 0", house.look(f, 0, 2, 0, 7), 158);
+    }
+
+    /** "their sum and half of how many, divided by how many (whole part)": on both sides of each half. */
+    private static void meanRounded() {
+        int[] sums = {3, 4, 11, 12, -4, -5, -12, -13, 0};
+        for (int sum : sums) {
             House house = new House();
-            Check.Bits two = bits().code(0).empty(1).code(1).code(0).signed(16 * sum).empty(4).code(0).empty(6);
+            Check.Bits two = oneRow(bits().code(0).empty(1), sum, false).empty(4).code(0).empty(6);
             int f = Check.film(house, filmOf(I, 16, 1, two));
-            Check.due("23: MEAN of " + sum, house.look(f, 0, 0, 8, 7), (8 * 128 + 4 * sum + 4) / 8);
+            Check.due("23: the sample itself", house.look(f, 0, 0, 7, 0), 128 + sum);
+            Check.due("23: MEAN of eight on the left, " + sum, house.look(f, 0, 0, 8, 7), (8 * 128 + sum + 4) / 8);
+            House other = new House();
+            Check.Bits below = oneRow(bits().code(0).empty(2), sum, true).empty(3).code(0).empty(6);
+            int g = Check.film(other, Check.head(0, 8, 16, 25, 1), Check.picture(I, 0, 1, below));
+            Check.due("23: MEAN of eight above, " + sum, other.look(g, 0, 0, 7, 8), (8 * 128 + sum + 4) / 8);
+        }
+        int[] pairs = {1, 2, 5, 6, -2, -3};
+        for (int sum : pairs) {
+            House house = new House();
+            Check.Bits two = oneRow(bits().code(0).empty(4), sum, false).empty(1).code(0).empty(6);
+            int f = Check.film(house, filmOf(I, 16, 1, two));
+            Check.due("23: MEAN of four in plane 1, " + sum, house.look(f, 0, 1, 4, 0), (4 * 128 + sum + 2) / 4);
+        }
+        meanOfBothSides();
+    }
+
+    /** Of sixteen samples, eight above and eight on the left: the corner between them doesn't count. */
+    private static void meanOfBothSides() {
+        int[] sums = {7, 8, 23, 24, -8, -9};
+        for (int sum : sums) {
+            House house = new House();
+            // Of the upper right part's lowest row one sample is more.
+            Check.Bits four = bits().code(0).empty(6).code(0).empty(2);
+            oneRow(four, sum, true);
+            four.empty(3).code(0).empty(6).code(0).empty(6);
+            int f = Check.film(house, Check.head(0, 16, 16, 25, 1), Check.picture(I, 0, 1, four));
+            Check.due("23: the part on the left", house.look(f, 0, 0, 7, 15), 128);
+            Check.due("23: MEAN of sixteen, " + sum, house.look(f, 0, 0, 15, 15), (16 * 128 + sum + 8) / 16);
+        }
+        House house = new House();
+        Check.Bits corner = bits().code(0).empty(3).code(1).code(0).signed(100 * 16).empty(2);
+        corner.code(2).empty(6).code(1).empty(6).code(0).empty(6);
+        int f = Check.film(house, Check.head(0, 16, 16, 25, 1), Check.picture(I, 0, 1, corner));
+        Check.due("23: the corner", house.look(f, 0, 0, 7, 7), 228);
+        Check.due("23: MEAN without the corner", house.look(f, 0, 0, 8, 8), 128);
+    }
+
+    /** "BOTH: (f + b + 1) / 2" at each sample of each plane; "of B BOTH with vectors 0". */
+    private static void bothRounded() {
+        for (int more = 20; more <= 23; more++) {
+            for (int way = 0; way <= 3; way += 3) {
+                House house = new House();
+                Check.Bits lit = bits().code(0);
+                for (int block = 0; block < 6; block++) {
+                    lit.code(1).code(0).signed(16 * more);
+                }
+                Check.Bits between = bits().code(way);
+                if (way == 3) {
+                    between.signed(0).signed(0).signed(0).signed(0).empty(6);
+                }
+                int f = Check.film(house, Check.head(0, 8, 8, 25, 3), Check.picture(I, 0, 1, flat(1)),
+                    Check.picture(I, 2, 1, lit), Check.picture(B, 1, 1, between));
+                for (int i = 0; i < 96; i++) {
+                    int plane = i < 64 ? 0 : i < 80 ? 1 : 2;
+                    int wide = plane == 0 ? 8 : 4;
+                    int at = plane == 0 ? i : i % 16;
+                    Check.due("23: between, sample " + i, house.look(f, 1, plane, at % wide, at / wide), (128 + 128 + more + 1) / 2);
+                }
+            }
         }
     }
 
@@ -508,6 +630,32 @@ public final class BlocksEdgesTest {
                     Check.due("22: part " + m + " " + what, house.part(f, 0, m, what), want ? -1 : facts[what]);
                 }
             }
+        }
+    }
+
+    /** What is ahead of the spot stays in all planes, and the largest picture is mended to its end. */
+    private static void mendedNothingElse() {
+        House house = new House();
+        Check.Bits lit = bits().code(0);
+        for (int block = 0; block < 6; block++) {
+            lit.code(1).code(0).signed(16 * (block + 1));
+        }
+        int f = Check.film(house, Check.head(0, 16, 16, 25, 1), Check.picture(I, 0, 1, lit.code(3)));
+        Check.due("21: spot", house.coded(f, 0, 7), 1);
+        for (int i = 0; i < 64; i++) {
+            int block = i / 32 * 2 + i % 8 / 4;
+            Check.due("23: plane 0", house.look(f, 0, 0, i % 8, i / 8), 129 + block);
+            Check.due("23: plane 0 of part 3", house.look(f, 0, 0, 8 + i % 8, 8 + i / 8), 128);
+            int plane = 1 + i / 16 % 2;
+            Check.due("23: plane " + plane, house.look(f, 0, plane, i % 4, i / 4 % 4), 132 + plane);
+            Check.due("23: plane " + plane + " of part 1", house.look(f, 0, plane, 4 + i % 4, i / 4 % 4), 128);
+        }
+        House large = new House();
+        int g = Check.film(large, Check.head(0, 24, 24, 25, 2), Check.picture(I, 0, 1, flat(9)), Check.picture(P, 1, 1, bits()));
+        for (int plane = 0; plane < 3; plane++) {
+            int last = plane == 0 ? 23 : 11;
+            Check.due("23: the last sample of plane " + plane, large.look(g, 1, plane, last, last), 128);
+            Check.due("24: the last sample of plane " + plane, large.mended(g, 1, plane, last, last), true);
         }
     }
 }

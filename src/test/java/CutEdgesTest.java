@@ -23,6 +23,7 @@ public final class CutEdgesTest {
         twoThousandBytes();
         eightFilms();
         keptOrNot();
+        groupsOfOne();
         forgotten();
         Check.end("CutEdgesTest");
     }
@@ -353,6 +354,32 @@ public final class CutEdgesTest {
         Check.due("17: in the room of the film that was cut", house.make(2), 1);
         for (int place = 0; place < 7; place++) {
             Check.due("29: nothing of the cut film is left", house.kept(1, place), false);
+        }
+    }
+
+    /** Groups of one picture each, and a film of twelve. */
+    private static void groupsOfOne() {
+        int[] groups = {1, 2, 5, 12};
+        for (int group : groups) {
+            House house = new House();
+            for (int i = 0; i < 12; i++) {
+                house.reel(house.blank(8, 8, 10 * i, 1, 1));
+            }
+            house.set(GROUP, group);
+            house.make(0);
+            house.row(0, 0, 11);
+            int all = house.cut();
+            house.row(0, 3, 10);
+            int some = house.cut();
+            for (int place = 0; place < 12; place++) {
+                Check.due("29: all, GROUP " + group, house.kept(all, place), true);
+                int first = place / group * group;
+                int last = Math.min(11, first + group - 1);
+                if (place >= 3 && place <= 10) {
+                    Check.due("29: some, GROUP " + group, house.kept(some, place - 3), first >= 3 && last <= 10);
+                }
+            }
+            Check.due("20: as many bytes", house.film(all, 5), house.film(0, 5));
         }
     }
 

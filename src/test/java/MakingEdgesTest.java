@@ -28,7 +28,10 @@ public final class MakingEdgesTest {
         levelsOfBothSigns();
         reach();
         leastVector();
+        vectorByTheLeft();
         leastWay();
+        leastWayOfSeveral();
+        everySampleCounts();
         halfOfSize();
         noMoreThanSize();
         flowComesAgain();
@@ -36,6 +39,7 @@ public final class MakingEdgesTest {
         twoThousandBytes();
         sizeOfOthers();
         runsAsTold();
+        sameAheadOfDown();
         Check.end("MakingEdgesTest");
     }
 
@@ -345,6 +349,71 @@ public final class MakingEdgesTest {
         }
     }
 
+    /** "bits of its two signed codes": where all are as near, that which the part on the left has. */
+    private static void vectorByTheLeft() {
+        House house = new House();
+        house.blank(24, 8, 100, 128, 128);
+        house.noise(0, 0, 9L, 40);
+        house.fill(0, 0, 12, 0, 12, 8, 200);
+        house.shift(0, 1, -2);
+        // What is flat is lighter than it was, so that it needs levels and is not SKIPPED.
+        house.fill(1, 0, 16, 0, 8, 8, 220);
+        house.fill(1, 0, 15, 0, 1, 8, 20);
+        house.reel(0);
+        house.reel(1);
+        house.set(STEP, 1);
+        house.set(REACH, 8);
+        int f = house.make(BLOCKS);
+        Check.due("22: x of the part on the left", house.part(f, 1, 1, 1), -2);
+        Check.due("22: y of the part on the left", house.part(f, 1, 1, 2), 4);
+        Check.due("22: FORWARD", house.part(f, 1, 2, 0), 1);
+        Check.due("17: x, all being as near", house.part(f, 1, 2, 1), -2);
+        Check.due("17: y, all being as near", house.part(f, 1, 2, 2), 4);
+    }
+
+    /** LEFT and ABOVE are as dear in a picture that is the same if it is turned; so are both anchors if they are. */
+    private static void leastWayOfSeveral() {
+        House house = new House();
+        house.blank(16, 16, 128, 128, 128);
+        Check.text(house, "i(n,128,(x*x+y*y+x*y*t)%251)");
+        house.filter();
+        house.apply(0, 0, 19);
+        house.reel(1);
+        house.set(STEP, 1);
+        Check.due("17: LEFT", house.part(house.make(BLOCKS), 0, 3, 0), 1);
+        House moved = new House();
+        moved.blank(24, 24, 128, 128, 128);
+        moved.noise(0, 0, 7L, 90);
+        moved.shift(0, 1, 1);
+        moved.reel(0);
+        moved.reel(1);
+        moved.reel(0);
+        moved.set(BETWEEN, 1);
+        moved.set(STEP, 1);
+        int f = moved.make(BLOCKS);
+        Check.due("17: FORWARD ahead of BACKWARD", moved.part(f, 2, 4, 0), 1);
+        Check.due("22: x", moved.part(f, 2, 4, 1), -2);
+        Check.due("22: y", moved.part(f, 2, 4, 2), -2);
+    }
+
+    /** "how far its samples (of all planes, as they are read) are from the picture's": one sample is enough. */
+    private static void everySampleCounts() {
+        for (int i = 0; i < 96; i++) {
+            int plane = i < 64 ? 0 : i < 80 ? 1 : 2;
+            int wide = plane == 0 ? 8 : 4;
+            int at = plane == 0 ? i : i % 16;
+            House house = new House();
+            house.blank(8, 8, 100, 100, 100);
+            house.reel(0);
+            house.put(0, plane, at % wide, at / wide, 200);
+            house.reel(0);
+            house.set(STEP, 1);
+            int f = house.make(BLOCKS);
+            Check.due("17: not SKIPPED for sample " + i, house.part(f, 1, 0, 0) > 0, true);
+            Check.due("23: sample " + i, house.look(f, 1, plane, at % wide, at / wide), 200);
+        }
+    }
+
     private static House oneLoud() {
         House house = new House();
         house.blank(8, 8, 100, 120, 130);
@@ -577,6 +646,33 @@ public final class MakingEdgesTest {
             for (int i = 0; i < Math.min(got.length, want.length); i++) {
                 Check.due("17: byte " + i + " of RUNS, round " + round, got[i], want[i]);
             }
+        }
+    }
+
+    /** From row 1 on SAME and DOWN are as short: "the least way first". */
+    private static void sameAheadOfDown() {
+        House house = new House();
+        house.blank(8, 8, 0, 0, 0);
+        for (int x = 0; x < 8; x++) {
+            house.fill(0, 0, x, 0, 1, 8, 30 * x + 7);
+            house.put(0, 0, x, 0, 5 * x + 100);
+        }
+        house.reel(0);
+        for (int x = 0; x < 8; x++) {
+            house.put(0, 0, x, 0, 30 * x + 7);
+        }
+        house.reel(0);
+        int f = house.make(RUNS);
+        int from = house.coded(f, 1, 4) + 5;
+        house.bytes(f);
+        Check.Bits want = Check.bits().code(0).code(0).eight(7).code(3).code(6);
+        for (int x = 1; x < 8; x++) {
+            want.eight(30 * x + 7);
+        }
+        int[] due = want.code(1).code(55).code(1).code(15).code(1).code(15).bytes();
+        Check.due("21: bytes", house.coded(f, 1, 3), due.length);
+        for (int i = 0; i < due.length; i++) {
+            Check.due("17: byte " + i + " of RUNS", house.tape(from + i), due[i]);
         }
     }
 }
