@@ -12,7 +12,9 @@ public final class BlocksEdgesTest {
         ways();
         howManyLevels();
         placesOfTheScan();
+        eachPlaceOfTheScan();
         levels();
+        codesOfLevels();
         vectors();
         vectorsByTheLeft();
         noVectorOnTheLeft();
@@ -187,6 +189,40 @@ public final class BlocksEdgesTest {
             late.code(0).signed(1);
         }
         broken("16 levels of which one was passed over", late.empty(5), 4);
+    }
+
+    /** "SCAN: 0, 1, 4, 8, 5, 2, ..": from the first place to the last, X being H D H. */
+    private static void eachPlaceOfTheScan() {
+        int[] scan = {0, 1, 4, 8, 5, 2, 3, 6, 9, 12, 13, 10, 7, 11, 14, 15};
+        int[][] h = {{1, 1, 1, 1}, {1, 1, -1, -1}, {1, -1, -1, 1}, {1, -1, 1, -1}};
+        for (int i = 0; i < 16; i++) {
+            House house = new House();
+            int f = Check.film(house, filmOf(I, 8, 3, bits().code(0).empty(4).code(1).code(i).signed(16).empty(1)));
+            for (int at = 0; at < 16; at++) {
+                int x = 16 * 3 * h[at / 4][scan[i] / 4] * h[scan[i] % 4][at % 4];
+                Check.due("23: place " + i + " of the scan, sample " + at, house.look(f, 0, 1, at % 4, at / 4), 128 + (x + 8 >> 4));
+            }
+        }
+    }
+
+    /** "A CODE of a number v", "A SIGNED code of v": on both sides of each further digit. */
+    private static void codesOfLevels() {
+        for (int power = 2; power <= 4096; power *= 2) {
+            for (int v = power - 1; v <= Math.min(power, 4095); v++) {
+                levelIs(v);
+                levelIs(-v);
+            }
+        }
+    }
+
+    private static void levelIs(int level) {
+        House house = new House();
+        int f = Check.film(house, filmOf(I, 8, 1, bits().code(0).code(1).code(0).signed(level).empty(5)));
+        int number = (level > 0 ? 2 * level - 1 : -2 * level) + 1;
+        int digits = Integer.toBinaryString(number).length();
+        Check.due("22: bits with a level " + level, house.part(f, 0, 0, 6), 1 + 3 + 1 + 2 * digits - 1 + 5);
+        int want = Math.max(0, Math.min(255, 128 + (level + 8 >> 4)));
+        Check.due("23: a level " + level, house.look(f, 0, 0, 0, 0), want);
     }
 
     /** "the signed code of the level, not 0, at most 4095 in size": "5 a level 0, or beyond". */

@@ -24,6 +24,7 @@ public final class CutEdgesTest {
         eightFilms();
         keptOrNot();
         groupsOfOne();
+        neverMade();
         forgotten();
         Check.end("CutEdgesTest");
     }
@@ -381,6 +382,22 @@ public final class CutEdgesTest {
             }
             Check.due("20: as many bytes", house.film(all, 5), house.film(0, 5));
         }
+    }
+
+    /** A house that has read a film and made none. */
+    private static void neverMade() {
+        House house = new House();
+        Check.Bits flat = Check.bits().code(0).empty(6);
+        Check.film(house, Check.head(0, 8, 8, 7, 2), Check.picture(0, 0, 9, flat), Check.picture(1, 1, 4, Check.bits().code(0)));
+        house.row(0, 1, 1);
+        house.row(0, 0, 1);
+        Check.due("28: its number", house.cut(), 1);
+        boolean[] kept = {false, true, true};
+        for (int place = 0; place < 3; place++) {
+            Check.due("29: place " + place, house.kept(1, place), kept[place]);
+        }
+        Check.due("21: STEP of the group's first", house.coded(1, 0, 2), 9);
+        Check.due("20: RATE", house.film(1, 3), 7);
     }
 
     /** "All films and players go, the list is empty: how many films there were"; all else stays. */

@@ -390,6 +390,8 @@ public final class FilterEdgesTest {
         for (int q = 0; q < 8; q++) {
             Check.text(house, "?");
             Check.due("31: wrong ones aren't counted", house.filter(), -1);
+            Check.text(house, "7*(x+y)-M(s,t))");
+            Check.due("31: nor is anything of them left", house.filter(), -15);
             Check.text(house, "" + (q + 10));
             Check.due("31: its number", house.filter(), q);
             Check.due("43: filters", house.count(2), q + 1);

@@ -32,6 +32,7 @@ public final class MakingEdgesTest {
         leastWay();
         leastWayOfSeveral();
         everySampleCounts();
+        asTheyAreRead();
         halfOfSize();
         noMoreThanSize();
         flowComesAgain();
@@ -411,6 +412,67 @@ public final class MakingEdgesTest {
             int f = house.make(BLOCKS);
             Check.due("17: not SKIPPED for sample " + i, house.part(f, 1, 0, 0) > 0, true);
             Check.due("23: sample " + i, house.look(f, 1, plane, at % wide, at / wide), 200);
+        }
+    }
+
+    /** "(These are samples of the picture as it is made so far.)": levels are those of what is read then. */
+    private static void asTheyAreRead() {
+        int[] steps = {8, 20, 31};
+        for (int step : steps) {
+            House house = new House();
+            house.blank(24, 8, 128, 128, 128);
+            Check.text(house, "(y*37)%200+20");
+            house.filter();
+            house.apply(0, 0, 0);
+            house.noise(1, 0, 3L, 25);
+            house.reel(1);
+            house.set(STEP, step);
+            int f = house.make(BLOCKS);
+            int[][] read = new int[8][24];
+            int[][] told = new int[8][24];
+            for (int i = 0; i < 192; i++) {
+                read[i / 24][i % 24] = house.look(f, 0, 0, i % 24, i / 24);
+                told[i / 24][i % 24] = house.sample(1, 0, i % 24, i / 24);
+            }
+            for (int m = 0; m < 3; m++) {
+                Check.due("22: LEFT where there is one", house.part(f, 0, m, 0), m == 0 ? 0 : 1);
+                for (int block = 0; block < 4; block++) {
+                    blockIsRead(read, told, 8 * m, block, step);
+                }
+            }
+        }
+    }
+
+    private static final int[][] H = {{1, 1, 1, 1}, {1, 1, -1, -1}, {1, -1, -1, 1}, {1, -1, 1, -1}};
+
+    private static int[][] turned(int[][] q) {
+        int[][] all = new int[4][4];
+        for (int i = 0; i < 256; i++) {
+            int r = i / 64;
+            int c = i / 16 % 4;
+            all[r][c] += H[r][i / 4 % 4] * q[i / 4 % 4][i % 4] * H[i % 4][c];
+        }
+        return all;
+    }
+
+    private static void blockIsRead(int[][] read, int[][] told, int left, int block, int step) {
+        int x = left + block % 2 * 4;
+        int y = block / 2 * 4;
+        int[][] e = new int[4][4];
+        for (int i = 0; i < 16; i++) {
+            int foretold = left == 0 ? 128 : read[y + i / 4][left - 1];
+            e[i / 4][i % 4] = told[y + i / 4][x + i % 4] - foretold;
+        }
+        int[][] levels = turned(e);
+        for (int i = 0; i < 16; i++) {
+            int c = levels[i / 4][i % 4];
+            levels[i / 4][i % 4] = (Math.abs(c) + step / 2) / step * (c < 0 ? -step : step);
+        }
+        int[][] rest = turned(levels);
+        for (int i = 0; i < 16; i++) {
+            int foretold = left == 0 ? 128 : read[y + i / 4][left - 1];
+            int want = Math.max(0, Math.min(255, foretold + (rest[i / 4][i % 4] + 8 >> 4)));
+            Check.due("23: STEP " + step + " at " + (x + i % 4) + ", " + (y + i / 4), read[y + i / 4][x + i % 4], want);
         }
     }
 

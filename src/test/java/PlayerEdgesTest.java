@@ -25,6 +25,7 @@ public final class PlayerEdgesTest {
         lostBits();
         lostOfOthers();
         readAnew();
+        brokenOnes();
         fourPlayers();
         nothingWasShown();
         longFilm();
@@ -72,6 +73,14 @@ public final class PlayerEdgesTest {
         Check.badState("42: nothing was shown", () -> house.frame(0, 0, 0, 0));
         Check.due("38: speed and fill are new", house.tick(0), -1);
         stands("behind a tick", house, 0, 0, 5, 0, 1, 1, -1);
+        house.seek(0, 3);
+        house.tick(0);
+        house.play(0, 0, 6, 12);
+        stands("anew, once late, and sought", house, 0, 0, 0, 0, 0, 0, -1);
+        Check.due("38: 6 bytes since it began", house.tick(0), -2);
+        Check.due("38: 12 bytes since it began", house.tick(0), -1);
+        Check.due("38: nothing is lost", house.tick(0), 0);
+        Check.due("42: nothing is lost", house.frame(0, 0, 0, 0), 128);
     }
 
     /** "the next picture is SHOWN if it has COME: it, and all ahead of it in the order of coding .. wholly". */
@@ -364,6 +373,36 @@ public final class PlayerEdgesTest {
             Check.due("38: place " + place, house.tick(0), place);
             Check.due("42: place " + place, house.frame(0, 0, 4, 4), frames[place]);
         }
+    }
+
+    /** Broken pictures of all codings are mended from their SPOT on, as the film has them. */
+    private static void brokenOnes() {
+        House house = new House();
+        Check.Bits first = Check.bits().code(0).code(63).eight(70).code(0).code(15).eight(71).code(0).code(15).eight(72);
+        Check.Bits second = Check.bits().code(0).code(63).eight(90).code(0).code(3).eight(91);
+        int runs = Check.film(house, Check.head(2, 8, 8, 25, 2), Check.picture(I, 0, 0, first), Check.picture(P, 1, 0, second));
+        int waves = Check.film(house, Check.head(1, 8, 8, 25, 2), Check.picture(I, 0, 0, Check.bits().code(64).code(16).code(16)),
+            Check.picture(I, 1, 0, Check.bits().code(64).code(17)));
+        int blocks = Check.film(house, Check.head(0, 16, 8, 25, 2), Check.picture(I, 0, 1, lit(0, 9).code(0).empty(6)),
+            Check.picture(P, 1, 1, lit(2, 50).code(5)));
+        int[] spots = {68, 1, 1};
+        for (int f = 0; f < 3; f++) {
+            Check.due("21: spot", house.coded(f, 1, 7), spots[f]);
+            house.play(f, f, 4000, 0);
+            for (int place = 0; place < 2; place++) {
+                Check.due("38: place", house.tick(f), place);
+                for (int i = 0; i < 16; i += 3) {
+                    for (int plane = 0; plane < 3; plane++) {
+                        Check.due("42: film " + f + " place " + place + " plane " + plane,
+                            house.frame(f, plane, i % 4, i / 4), house.look(f, place, plane, i % 4, i / 4));
+                    }
+                }
+            }
+        }
+        Check.due("42: a part that is mended", house.frame(blocks, 0, 15, 7), 137);
+        Check.due("42: a part that isn't", house.frame(blocks, 0, 7, 7), 178);
+        Check.due("42: a plane that is mended", house.frame(waves, 1, 3, 3), 128);
+        Check.due("42: a sample that is mended", house.frame(runs, 1, 0, 1), 71);
     }
 
     private static void fourPlayers() {

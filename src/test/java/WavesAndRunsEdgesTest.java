@@ -315,6 +315,7 @@ public final class WavesAndRunsEdgesTest {
         // Codes of a run fill an even number of bits, so that it is two bits that are lacking.
         judged("a FILL of three that lacks two bits", RUNS, bits().code(0).code(4).eight(9).code(0).code(2).raw("111111"), 1, 5);
         judged("all planes but two bits", RUNS, filled(2).code(0).code(15).raw("111111"), 1, 80);
+        judged("what is left of the bits is no run", RUNS, bits().code(0).code(7).eight(1).code(0).code(0).code(2).code(0), 1, 8);
         judged("a TOLD without bits", RUNS, bits().code(3).code(0).raw("00"), 1, 0);
         for (int read = 0; read <= 4; read++) {
             Check.Bits told = bits().code(3).code(4);
