@@ -6,11 +6,13 @@ import java.util.TreeSet;
 
 /** The public face has what the document shows, and nothing else can be seen from outside. */
 public final class FaceTest {
-    private static final String FACE = "blank(iiiii)i fill(iiiiiii)i noise(iili)v shift(iii)i put(iiiii)i sample(iiii)i "
-        + "size(ii)i drop(i)i feed(li)i alter(ii)i tape(i)i wipe()i set(ii)i reel(i)i unreel()i make(i)i read()i "
-        + "bytes(i)i film(ii)i coded(iii)i part(iiii)i look(iiiii)i mended(iiiii)b shown(ii)i buffer(iiii)i "
-        + "row(iii)i cut()i kept(ii)b forget()i filter()i apply(iii)i distance(iii)i first(ii)b twin(ii)i "
-        + "movement(iiii)i play(iiii)v tick(i)i lose(ii)v seek(ii)v player(ii)i frame(iiii)i count(i)i";
+    /** Types by their first letters, then exceptions in their order: X index, A argument, S state. */
+    private static final String FACE = "blank(iiiii)iAS fill(iiiiiii)iXA noise(iili)vXA shift(iii)iXAS put(iiiii)iXA sample(iiii)iX size(ii)iXA "
+        + "drop(i)iA feed(li)iAS alter(ii)iX tape(i)i wipe()i set(ii)iA reel(i)iXAS unreel()i make(i)iAS read()iS "
+        + "bytes(i)iX film(ii)iXA coded(iii)iXA part(iiii)iXA look(iiiii)iX mended(iiiii)bX shown(ii)iXS "
+        + "buffer(iiii)iXA row(iii)iXAS cut()iS kept(ii)bX forget()i filter()iS apply(iii)iXS distance(iii)iXA "
+        + "first(ii)bX twin(ii)iX movement(iiii)iXA play(iiii)vXA tick(i)iXS lose(ii)vXS seek(ii)vXS player(ii)iXAS "
+        + "frame(iiii)iXS count(i)iA";
 
     public static void main(String[] args) {
         Set<String> got = new TreeSet<>();
@@ -25,7 +27,11 @@ public final class FaceTest {
             for (Class<?> type : method.getParameterTypes()) {
                 text.append(type.getName().charAt(0));
             }
-            got.add(text.append(')').append(method.getReturnType().getName().charAt(0)).toString());
+            text.append(')').append(method.getReturnType().getName().charAt(0));
+            for (Class<?> type : method.getExceptionTypes()) {
+                text.append(type == IndexOutOfBoundsException.class ? 'X' : type == IllegalArgumentException.class ? 'A' : 'S');
+            }
+            got.add(text.toString());
         }
         Check.due("the methods", got.equals(new TreeSet<>(Set.of(FACE.split(" ")))), true);
         Member[] fields = PictureHouse.class.getDeclaredFields();
